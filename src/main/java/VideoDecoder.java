@@ -9,6 +9,7 @@ public final class VideoDecoder {
     private static final int CONTEXTS = 4;
     private static final int MODELS = 2941;
     private static final int START_CHANCE = 128;
+    private static final int CRC_POLYNOMIAL = 0xEDB88320;
 
     private static final int LARGEST = 192;
     private static final int LARGEST_CHROMA = LARGEST / 2;
@@ -78,7 +79,7 @@ public final class VideoDecoder {
         for (int i = 0; i < 256; i++) {
             int rest = i;
             for (int bit = 0; bit < 8; bit++) {
-                rest = (rest & 1) == 1 ? rest >>> 1 ^ 0xEDB88320 : rest >>> 1;
+                rest = (rest & 1) == 1 ? (rest >>> 1) ^ CRC_POLYNOMIAL : rest >>> 1;
             }
             crcTable[i] = rest;
         }
@@ -162,7 +163,7 @@ public final class VideoDecoder {
         for (int y = 0; y < picture.high(plane); y++) {
             int row = Picture.at(plane, 0, y);
             for (int x = 0; x < picture.wide(plane); x++) {
-                crc = crc >>> 8 ^ crcTable[(crc ^ picture.samples[row + x]) & 255];
+                crc = (crc >>> 8) ^ crcTable[(crc ^ picture.samples[row + x]) & 255];
             }
         }
         return ~crc;
@@ -241,12 +242,12 @@ public final class VideoDecoder {
         if (marker < 192 || marker > 223) {
             return 0;
         }
-        int index = 2 + (1 + (marker >> 3 & 3)) * (1 + (marker & 7));
+        int index = 2 + (1 + ((marker >> 3) & 3)) * (1 + (marker & 7));
         return length >= index && (tape[length - index] & 255) == marker ? index : 0;
     }
 
     private long frameLength(int length, int index, int frame) {
-        int bytes = 1 + (tape[length - 1] >> 3 & 3);
+        int bytes = 1 + ((tape[length - 1] >> 3) & 3);
         int first = length - index + 1 + frame * bytes;
         long sum = 0;
         for (int i = bytes - 1; i >= 0; i--) {
@@ -293,7 +294,7 @@ public final class VideoDecoder {
         filter.run(picture);
         keepModels();
         for (int i = 0; i < SLOTS; i++) {
-            if ((header.refreshed >> i & 1) == 1) {
+            if (((header.refreshed >> i) & 1) == 1) {
                 slots[i] = picture;
             }
         }
@@ -353,7 +354,7 @@ public final class VideoDecoder {
     }
 
     private static int clip(int value) {
-        return within(value, 0, 255);
+        return value < 0 ? 0 : value > 255 ? 255 : value;
     }
 
     private static int within(int value, int least, int most) {
@@ -422,14 +423,13 @@ public final class VideoDecoder {
         int number(int width) {
             int value = 0;
             for (int i = 0; i < width; i++) {
-                int bit = 0;
+                value *= 2;
                 if (position < limit) {
-                    bit = tape[position >> 3] >> 7 - (position & 7) & 1;
+                    value += (tape[position >> 3] >> (7 - (position & 7))) & 1;
                     position++;
-                } else {
-                    meet(1);
+                } else if (fault == 0) {
+                    fault = 1;
                 }
-                value = value * 2 + bit;
             }
             return value;
         }
@@ -440,15 +440,15 @@ public final class VideoDecoder {
 
         int signed(int width) {
             int amount = number(width);
-            return flag() ? -amount : amount;
+            return number(1) == 1 ? -amount : amount;
         }
 
         int chance() {
-            return flag() ? Math.max(1, number(8)) : 255;
+            return number(1) == 1 ? Math.max(1, number(8)) : 255;
         }
 
         int nextByte() {
-            return position + 7 >> 3;
+            return (position + 7) >> 3;
         }
     }
 
@@ -680,25 +680,25 @@ public final class VideoDecoder {
             Arrays.fill(set, 0);
             Arrays.fill(values, 0);
             absolute = bits.flag();
-            for (int at = 0; at < 32; at++) {
+            for (int segment = 0; segment < 8; segment++) {
                 if (bits.flag()) {
-                    set[at] = 1;
-                    values[at] = readFeature(bits, at % 4);
+                    setFeature(segment, FEATURE_QUANTISER, bits.signed(8));
+                }
+                if (bits.flag()) {
+                    setFeature(segment, FEATURE_LEVEL, bits.signed(6));
+                }
+                if (bits.flag()) {
+                    setFeature(segment, FEATURE_REFERENCE, bits.number(2));
+                }
+                if (bits.flag()) {
+                    setFeature(segment, FEATURE_SKIP, 1);
                 }
             }
         }
 
-        private static int readFeature(PlainBits bits, int feature) {
-            switch (feature) {
-                case FEATURE_QUANTISER:
-                    return bits.signed(8);
-                case FEATURE_LEVEL:
-                    return bits.signed(6);
-                case FEATURE_REFERENCE:
-                    return bits.number(2);
-                default:
-                    return 1;
-            }
+        private void setFeature(int segment, int feature, int value) {
+            set[segment * 4 + feature] = 1;
+            values[segment * 4 + feature] = value;
         }
     }
 
@@ -706,8 +706,7 @@ public final class VideoDecoder {
     private static final class Coder {
         private final byte[] tape;
         final int[] models = new int[MODELS];
-        private final int[] zeros = new int[MODELS];
-        private final int[] ones = new int[MODELS];
+        private final int[] tallies = new int[2 * MODELS];
         int readings;
         private int next;
         private int limit;
@@ -729,8 +728,7 @@ public final class VideoDecoder {
         }
 
         void forgetReadings() {
-            Arrays.fill(zeros, 0);
-            Arrays.fill(ones, 0);
+            Arrays.fill(tallies, 0);
             readings = 0;
         }
 
@@ -745,13 +743,16 @@ public final class VideoDecoder {
             }
             for (int i = 0; i < 8 && range < 128; i++) {
                 if (heldBits == 0) {
-                    held = next < limit ? tape[next] & 255 : 0;
-                    next = Math.min(next + 1, limit);
+                    held = 0;
+                    if (next < limit) {
+                        held = tape[next] & 255;
+                        next++;
+                    }
                     heldBits = 8;
                 }
                 heldBits--;
                 range *= 2;
-                value = value * 2 + (held >> heldBits & 1);
+                value = value * 2 + ((held >> heldBits) & 1);
             }
             return bit;
         }
@@ -766,22 +767,22 @@ public final class VideoDecoder {
 
         int read(int k) {
             int bit = bit(models[k]);
-            if (bit == 0) {
-                zeros[k]++;
-            } else {
-                ones[k]++;
-            }
+            tallies[2 * k + bit]++;
             readings++;
             return bit;
         }
 
         /** How many ones come, one model behind the other, until a 0 or the most. */
         int ladder(int first, int most) {
-            int ones = 0;
-            while (ones < most && read(first + ones) == 1) {
-                ones++;
+            int rung = 0;
+            int bit = 1;
+            while (rung < most && bit == 1) {
+                bit = bit(models[first + rung]);
+                tallies[2 * (first + rung) + bit]++;
+                readings++;
+                rung += bit;
             }
-            return ones;
+            return rung;
         }
 
         void changeModels() {
@@ -802,22 +803,22 @@ public final class VideoDecoder {
 
         /** What becomes of a model that was v before the frame, by what it gave in the frame. */
         int learnt(int k, int v) {
-            int n = zeros[k] + ones[k];
+            int zeros = tallies[2 * k];
+            int n = zeros + tallies[2 * k + 1];
             if (n == 0) {
                 return v;
             }
-            int w = within((256 * zeros[k] + n / 2) / n, 1, 255);
+            int w = within((256 * zeros + n / 2) / n, 1, 255);
             int f = 128 * Math.min(n, 20) / 20;
-            return v * (256 - f) + w * f + 128 >> 8;
+            return (v * (256 - f) + w * f + 128) >> 8;
         }
     }
 
     /** The units of a frame and their blocks, those of the frame before, and the map of segments. */
     private static final class Grid {
+        // A cell is a square of 4 samples of a plane.
         private static final int CELLS_ACROSS = LARGEST / 4;
-        private static final int CHROMA_CELLS_ACROSS = LARGEST_CHROMA / 4;
-        private static final int LUMA_CELLS = CELLS_ACROSS * CELLS_ACROSS;
-        private static final int CHROMA_CELLS = CHROMA_CELLS_ACROSS * CHROMA_CELLS_ACROSS;
+        private static final int NOT_WRITTEN = 0;
         private static final int WRITTEN = 1;
         private static final int WITH_NUMBERS = 2;
 
@@ -833,7 +834,7 @@ public final class VideoDecoder {
         private int[] lastOwners = new int[UNITS_ROOM];
         int[] lastFacts = new int[UNITS_ROOM * FACTS];
         private final int[] map = new int[UNITS_ROOM];
-        private final byte[] cells = new byte[LUMA_CELLS + 2 * CHROMA_CELLS];
+        private final byte[] cells = new byte[3 * CELLS_ACROSS * CELLS_ACROSS];
 
         void begin(Header header) {
             boolean sameSize = width == header.width && height == header.height;
@@ -849,7 +850,7 @@ public final class VideoDecoder {
             blocks = 0;
             swapWithLast();
             Arrays.fill(owners, -1);
-            Arrays.fill(cells, (byte) 0);
+            Arrays.fill(cells, (byte) NOT_WRITTEN);
         }
 
         void forgetMotion() {
@@ -928,32 +929,26 @@ public final class VideoDecoder {
             return plane == 0 ? facts[here + SIZE] : Math.min(facts[here + SIZE], rank(lesserSide));
         }
 
-        private static int cellOf(int plane, int x, int y) {
-            return plane == 0
-                    ? (y >> 2) * CELLS_ACROSS + (x >> 2)
-                    : LUMA_CELLS + (plane - 1) * CHROMA_CELLS + (y >> 2) * CHROMA_CELLS_ACROSS + (x >> 2);
-        }
-
         void markWritten(int plane, int x, int y, int wide, int high, boolean hasNumbers) {
-            byte mark = (byte) (hasNumbers ? WRITTEN + WITH_NUMBERS : WRITTEN);
-            for (int row = y; row < y + high; row += 4) {
-                int first = cellOf(plane, x, row);
+            byte mark = (byte) (hasNumbers ? WITH_NUMBERS : WRITTEN);
+            for (int row = y / 4; row < (y + high) / 4; row++) {
+                int first = (plane * CELLS_ACROSS + row) * CELLS_ACROSS + x / 4;
                 Arrays.fill(cells, first, first + wide / 4, mark);
             }
         }
 
-        private int cell(int plane, int x, int y) {
-            int side = Picture.stride(plane);
-            return x < 0 || y < 0 || x >= side || y >= side ? 0 : cells[cellOf(plane, x, y)];
+        /** What became of a sample's cell in this frame. */
+        int markAt(int plane, int x, int y) {
+            if (x < 0 || y < 0 || x >= LARGEST || y >= LARGEST) {
+                return NOT_WRITTEN;
+            }
+            return cells[(plane * CELLS_ACROSS + y / 4) * CELLS_ACROSS + x / 4];
         }
 
-        boolean isKnown(int plane, int x, int y) {
-            return (cell(plane, x, y) & WRITTEN) != 0;
-        }
-
-        int squaresWithNumbers(int plane, int x, int y) {
-            return (cell(plane, x, y - 1) & WITH_NUMBERS) / WITH_NUMBERS
-                    + (cell(plane, x - 1, y) & WITH_NUMBERS) / WITH_NUMBERS;
+        /** How many of the cells above and on the left of a square have numbers. */
+        int cellsWithNumbers(int plane, int x, int y) {
+            int n = markAt(plane, x, y - 1) == WITH_NUMBERS ? 1 : 0;
+            return markAt(plane, x - 1, y) == WITH_NUMBERS ? n + 1 : n;
         }
     }
 
@@ -1234,7 +1229,7 @@ public final class VideoDecoder {
                     boolean hasNumbers = fact(SKIP) == 0 && residue.read(mode);
                     grid.markWritten(plane, x, y, side, side, hasNumbers);
                     if (!other) {
-                        still.place(plane, x, y, side);
+                        still.gather(picture, plane, x, y, side);
                         still.predict(picture, mode);
                     }
                     if (hasNumbers) {
@@ -1355,11 +1350,11 @@ public final class VideoDecoder {
             int chroma = plane == 0 ? 0 : 1;
             int group = NUMBERS + 108 * ((mode < 0 ? 1 : 0) + 2 * (chroma + 2 * size));
             int scan = scanOf(orderFor(mode), size);
-            int total = 16 << 2 * size;
+            int total = 16 << (2 * size);
             boolean behindZero = false;
             for (int i = 0; i < total; i++) {
                 int at = scans[scan + i];
-                int c = i == 0 ? grid.squaresWithNumbers(plane, x, y) : gradeAround(at);
+                int c = i == 0 ? grid.cellsWithNumbers(plane, x, y) : gradeAround(at);
                 int m = group + 18 * (i > 20 ? 5 : BANDS[i]) + 3 * c;
                 if (!behindZero && coder.read(m) == 0) {
                     return i > 0;
@@ -1411,8 +1406,8 @@ public final class VideoDecoder {
         private void putNumber(int at, int number) {
             int quantiser = quantisers[(plane == 0 ? 0 : 2) + (at == 0 ? 0 : 1)];
             numbers[at] = within(number * quantiser, -32768, 32767);
-            lastRow = Math.max(lastRow, at >> size + 2);
-            lastColumn = Math.max(lastColumn, at & (4 << size) - 1);
+            lastRow = Math.max(lastRow, at >> (size + 2));
+            lastColumn = Math.max(lastColumn, at & ((4 << size) - 1));
             written++;
         }
 
@@ -1429,7 +1424,8 @@ public final class VideoDecoder {
             for (int row = 0; row < side; row++) {
                 int at = Picture.at(plane, x, y + row);
                 for (int column = 0; column < side; column++) {
-                    picture.samples[at + column] = clip(picture.samples[at + column] + numbers[row * side + column]);
+                    int sum = picture.samples[at + column] + numbers[row * side + column];
+                    picture.samples[at + column] = clip(sum);
                 }
             }
         }
@@ -1473,7 +1469,7 @@ public final class VideoDecoder {
             int d = numbers[first + 3 * step];
             a += b;
             d -= c;
-            int e = a - d >> 1;
+            int e = (a - d) >> 1;
             b = e - b;
             c = e - c;
             numbers[first] = a - b;
@@ -1486,7 +1482,7 @@ public final class VideoDecoder {
     /** Prediction of a square from the picture itself. */
     private static final class StillPrediction {
         // Round the corner: left samples upwards, the corner, the samples above to the right.
-        private static final int CORNER = 32;
+        private static final int CORNER = 64;
 
         private final Grid grid;
         private final int[] edge = new int[CORNER + 1 + 64];
@@ -1501,16 +1497,48 @@ public final class VideoDecoder {
             this.grid = grid;
         }
 
-        /** Says which square is predicted next. */
-        void place(int plane, int x, int y, int side) {
+        /** Says which square is predicted next, and takes the samples round it. */
+        void gather(Picture picture, int plane, int x, int y, int side) {
             this.plane = plane;
             left = x;
             top = y;
             this.side = side;
+            gatherAbove(picture.samples);
+            gatherLeft(picture.samples);
+            edge[CORNER] = knowsAbove ? 129 : 127;
+            if (grid.markAt(plane, x - 1, y - 1) != Grid.NOT_WRITTEN) {
+                edge[CORNER] = picture.samples[Picture.at(plane, x - 1, y - 1)];
+            }
+        }
+
+        private void gatherAbove(int[] samples) {
+            int known = 0;
+            while (known < 2 * side && grid.markAt(plane, left + known, top - 1) != Grid.NOT_WRITTEN) {
+                known += 4;
+            }
+            knowsAbove = known > 0;
+            int last = 127;
+            for (int j = 0; j < 2 * side; j++) {
+                last = j < known ? samples[Picture.at(plane, left + j, top - 1)] : last;
+                edge[CORNER + 1 + j] = last;
+            }
+        }
+
+        /** D207 looks below the square, where its last sample goes on. */
+        private void gatherLeft(int[] samples) {
+            int known = 0;
+            while (known < side && grid.markAt(plane, left - 1, top + known) != Grid.NOT_WRITTEN) {
+                known += 4;
+            }
+            knowsLeft = known > 0;
+            int last = 129;
+            for (int i = 0; i < 2 * side; i++) {
+                last = i < known ? samples[Picture.at(plane, left - 1, top + i)] : last;
+                edge[CORNER - 1 - i] = last;
+            }
         }
 
         void predict(Picture picture, int mode) {
-            gather(picture.samples);
             int mean = mode == 0 ? mean() : 0;
             for (int y = 0; y < side; y++) {
                 int row = Picture.at(plane, left, top + y);
@@ -1518,30 +1546,6 @@ public final class VideoDecoder {
                     picture.samples[row + x] = mode == 0 ? mean : predicted(mode, x, y);
                 }
             }
-        }
-
-        private void gather(int[] samples) {
-            int known = 0;
-            while (known < 2 * side && grid.isKnown(plane, left + known, top - 1)) {
-                known += 4;
-            }
-            knowsAbove = known > 0;
-            for (int j = 0; j < 2 * side; j++) {
-                edge[CORNER + 1 + j] = j < known ? samples[Picture.at(plane, left + j, top - 1)]
-                        : knowsAbove ? edge[CORNER + j] : 127;
-            }
-            known = 0;
-            while (known < side && grid.isKnown(plane, left - 1, top + known)) {
-                known += 4;
-            }
-            knowsLeft = known > 0;
-            for (int i = 0; i < side; i++) {
-                edge[CORNER - 1 - i] = i < known ? samples[Picture.at(plane, left - 1, top + i)]
-                        : knowsLeft ? edge[CORNER - i] : 129;
-            }
-            edge[CORNER] = grid.isKnown(plane, left - 1, top - 1)
-                    ? samples[Picture.at(plane, left - 1, top - 1)]
-                    : knowsAbove ? 129 : 127;
         }
 
         private int mean() {
@@ -1557,6 +1561,7 @@ public final class VideoDecoder {
         }
 
         private int predicted(int mode, int x, int y) {
+            int v;
             switch (mode) {
                 case 1:
                     return edge[CORNER + 1 + x];
@@ -1567,52 +1572,30 @@ public final class VideoDecoder {
                 case 4:
                     return mean3(x - y);
                 case 5:
-                    return steep(x, y);
+                    v = 2 * x - y;
+                    return v >= 0 && v % 2 == 0 ? mean2(v / 2) : mean3(v < 0 ? v + 1 : (v + 1) / 2);
                 case 6:
-                    return shallow(x, y);
+                    v = 2 * y - x;
+                    return v >= 0 && v % 2 == 0 ? mean2(-v / 2 - 1) : mean3(v < 0 ? -v - 1 : -(v + 1) / 2);
                 case 7:
-                    return fromLeft(x + 2 * y);
+                    v = x / 2 + y;
+                    return x % 2 == 0 ? mean2(-v - 2) : mean3(-v - 2);
                 case 8:
-                    return y % 2 == 0 ? mean2(y / 2 + x + 1) : mean3(y / 2 + x + 2);
+                    v = y / 2 + x;
+                    return y % 2 == 0 ? mean2(v + 1) : mean3(v + 2);
                 default:
                     return clip(edge[CORNER - 1 - y] + edge[CORNER + 1 + x] - edge[CORNER]);
             }
         }
 
-        /** The mean of the edge's places z and z + 1. */
+        /** The mean of the edge's places z and z + 1, 0 being the corner. */
         private int mean2(int z) {
-            return edge[CORNER + z] + edge[CORNER + z + 1] + 1 >> 1;
+            return (edge[CORNER + z] + edge[CORNER + z + 1] + 1) >> 1;
         }
 
         /** The weighed mean round the edge's place z. */
         private int mean3(int z) {
-            return edge[CORNER + z - 1] + 2 * edge[CORNER + z] + edge[CORNER + z + 1] + 2 >> 2;
-        }
-
-        private int steep(int x, int y) {
-            int v = 2 * x - y;
-            if (v < 0) {
-                return mean3(v + 1);
-            }
-            return v % 2 == 0 ? mean2(v / 2) : mean3((v + 1) / 2);
-        }
-
-        private int shallow(int x, int y) {
-            int v = 2 * y - x;
-            if (v < 0) {
-                return mean3(-v - 1);
-            }
-            return v % 2 == 0 ? mean2(-v / 2 - 1) : mean3(-(v + 1) / 2);
-        }
-
-        private int fromLeft(int v) {
-            int a = leftAt(v / 2);
-            int b = leftAt(v / 2 + 1);
-            return v % 2 == 0 ? a + b + 1 >> 1 : a + 2 * b + leftAt(v / 2 + 2) + 2 >> 2;
-        }
-
-        private int leftAt(int i) {
-            return edge[CORNER - 1 - Math.min(i, side - 1)];
+            return (edge[CORNER + z - 1] + 2 * edge[CORNER + z] + edge[CORNER + z + 1] + 2) >> 2;
         }
     }
 
@@ -1650,7 +1633,8 @@ public final class VideoDecoder {
             this.grid = grid;
             for (int f = 0; f < 16; f++) {
                 for (int i = 0; i < TAPS; i++) {
-                    taps[f * TAPS + i] = f <= 8 ? SHARP_TAPS[f * TAPS + i] : SHARP_TAPS[(16 - f) * TAPS + 7 - i];
+                    int mirrored = (16 - f) * TAPS + 7 - i;
+                    taps[f * TAPS + i] = SHARP_TAPS[f <= 8 ? f * TAPS + i : mirrored];
                 }
                 taps[(16 + f) * TAPS + 3] = 128 - 8 * f;
                 taps[(16 + f) * TAPS + 4] = 8 * f;
@@ -1725,7 +1709,7 @@ public final class VideoDecoder {
         private void offer(int[] facts, int place, int reference, boolean same) {
             for (int i = 0; i < 2 && place >= 0; i++) {
                 int its = facts[place + FIRST + i];
-                if (its >= 0 && its == reference == same) {
+                if (its >= 0 && (its == reference) == same) {
                     int turn = header.sides[its] == header.sides[reference] ? 1 : -1;
                     add(turn * facts[place + VECTOR + 2 * i], turn * facts[place + VECTOR + 2 * i + 1]);
                 }
@@ -1801,7 +1785,7 @@ public final class VideoDecoder {
                         sum += taps[first + t] * rows[(j + t) * MOST + i];
                     }
                     int value = clip(sum >> 7);
-                    target.samples[row + i] = mix ? target.samples[row + i] + value + 1 >> 1 : value;
+                    target.samples[row + i] = mix ? (target.samples[row + i] + value + 1) >> 1 : value;
                 }
             }
         }
@@ -1947,7 +1931,7 @@ public final class VideoDecoder {
                 for (int i = k - n; i <= k + n; i++) {
                     sum += old[within(i, 0, most)];
                 }
-                put(first + k * step, n == 7 ? sum + 8 >> 4 : sum + 4 >> 3);
+                put(first + k * step, n == 7 ? (sum + 8) >> 4 : (sum + 4) >> 3);
             }
         }
 
@@ -1956,14 +1940,15 @@ public final class VideoDecoder {
             int p0 = samples[at - step] - 128;
             int q0 = samples[at] - 128;
             int q1 = samples[at + step] - 128;
-            boolean steep = Math.abs(p1 - p0) > level >> 4 || Math.abs(q1 - q0) > level >> 4;
+            int most = level >> 4;
+            boolean steep = Math.abs(p1 - p0) > most || Math.abs(q1 - q0) > most;
             int f = held(steep ? held(p1 - q1) + 3 * (q0 - p0) : 3 * (q0 - p0));
             int f1 = held(f + 4) >> 3;
             int f2 = held(f + 3) >> 3;
             put(at, held(q0 - f1) + 128);
             put(at - step, held(p0 + f2) + 128);
             if (!steep) {
-                int half = f1 + 1 >> 1;
+                int half = (f1 + 1) >> 1;
                 put(at + step, held(q1 - half) + 128);
                 put(at - 2 * step, held(p1 + half) + 128);
             }

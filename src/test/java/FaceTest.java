@@ -1,51 +1,62 @@
+import java.lang.reflect.Field;
+import java.lang.reflect.Method;
+import java.lang.reflect.Modifier;
+import java.util.Arrays;
 import java.util.NoSuchElementException;
+import java.util.TreeSet;
 
-/** A new object and wrong arguments: promises 1 to 11 where nothing was decoded. */
+/** Promise 1, and wrong arguments of promises 5 to 11 on a new object. */
 public final class FaceTest {
-    private static int wrong = 0;
-
-    private static void due(String call, long got, long want) {
-        if (got != want) {
-            wrong++;
-            System.out.println(call + " answered " + got + ", due is " + want);
-        }
-    }
-
     public static void main(String[] args) {
+        Due due = new Due();
         VideoDecoder x = new VideoDecoder();
         for (int context = 0; context < 4; context++) {
             for (int k = 0; k < 2941; k++) {
-                due("model " + context + " " + k, x.model(context, k), 128);
+                due.be("model " + context + ", " + k, x.model(context, k), 128);
             }
         }
-        due("count 7", x.count(7), -1);
-        due("count 8", x.count(8), -1);
-        due("count -1", x.count(-1), -1);
+        for (int slot = -1; slot < 8; slot++) {
+            int s = slot;
+            due.thrown("sample of slot " + s, NoSuchElementException.class, () -> x.sample(s, 0, 0, 0));
+            due.thrown("sample of slot and plane " + s, NoSuchElementException.class, () -> x.sample(s, 3, -1, 0));
+            due.thrown("check of slot " + s, NoSuchElementException.class, () -> x.check(s, 3));
+            due.thrown("size of slot " + s, NoSuchElementException.class, () -> x.size(s, 2));
+        }
         for (int what = 0; what < 7; what++) {
-            due("count " + what, x.count(what), 0);
+            due.be("count " + what, x.count(what), 0);
         }
-        int full = 0;
-        for (int i = 0; i < 3276; i++) {
-            full = x.feed(i, -1, 0, 1, 2);
-            due("feed", full, 20 * (i + 1));
+        due.be("count 7", x.count(7), -1);
+        due.be("count 8", x.count(8), -1);
+        due.be("count -1", x.count(-1), -1);
+        due.be("count least", x.count(Integer.MIN_VALUE), -1);
+        due.be("fault 0", x.fault(0), 0);
+        due.be("fault 1", x.fault(1), -1);
+        due.thrown("fault 2", IllegalArgumentException.class, () -> x.fault(2));
+        due.thrown("fault -1", IllegalArgumentException.class, () -> x.fault(-1));
+        due.thrown("block without frame", IndexOutOfBoundsException.class, () -> x.block(0, 0, 17));
+        due.thrown("model of context 4", IndexOutOfBoundsException.class, () -> x.model(4, 0));
+        due.thrown("model of context -1", IndexOutOfBoundsException.class, () -> x.model(-1, 0));
+        due.thrown("model 2941", IndexOutOfBoundsException.class, () -> x.model(0, 2941));
+        due.thrown("model -1", IndexOutOfBoundsException.class, () -> x.model(3, -1));
+        face(due);
+        due.close("FaceTest");
+    }
+
+    private static void face(Due due) {
+        String[] names = {"feed", "end", "decode", "fault", "sample", "check", "size", "model", "block", "count"};
+        TreeSet<String> methods = new TreeSet<>();
+        for (Method method : VideoDecoder.class.getDeclaredMethods()) {
+            if (!Modifier.isPrivate(method.getModifiers())) {
+                methods.add(method.getName());
+            }
         }
-        boolean thrown = false;
-        try {
-            x.feed(0, 0, 0, 0, 0);
-        } catch (IllegalStateException e) {
-            thrown = true;
+        due.be("methods", methods.toString(), new TreeSet<>(Arrays.asList(names)).toString());
+        for (Field field : VideoDecoder.class.getDeclaredFields()) {
+            due.be("private " + field.getName(), Modifier.isPrivate(field.getModifiers()) ? 1 : 0, 1);
         }
-        due("feed without room throws", thrown ? 1 : 0, 1);
-        due("count 0", x.count(0), full);
-        thrown = false;
-        try {
-            x.sample(0, 9, 0, 0);
-        } catch (NoSuchElementException e) {
-            thrown = true;
+        for (Class<?> inside : VideoDecoder.class.getDeclaredClasses()) {
+            due.be("static " + inside.getName(), Modifier.isStatic(inside.getModifiers()) ? 1 : 0, 1);
         }
-        due("sample of nothing throws", thrown ? 1 : 0, 1);
-        if (wrong != 0) {
-            System.exit(1);
-        }
+        due.be("final", Modifier.isFinal(VideoDecoder.class.getModifiers()) ? 1 : 0, 1);
     }
 }

@@ -1,0 +1,42 @@
+/** Compares answers with those that are due, and counts what differs. */
+final class Due {
+    interface Call {
+        int answer();
+    }
+
+    private int wrong = 0;
+    private int asked = 0;
+
+    void be(String call, long got, long want) {
+        asked++;
+        if (got != want) {
+            wrong++;
+            System.out.println(call + " answered " + got + ", due is " + want);
+        }
+    }
+
+    void be(String call, String got, String want) {
+        asked++;
+        if (!got.equals(want)) {
+            wrong++;
+            System.out.println(call + " answered " + got + ", due is " + want);
+        }
+    }
+
+    void thrown(String call, Class<? extends RuntimeException> want, Call made) {
+        String got = "nothing";
+        try {
+            made.answer();
+        } catch (RuntimeException e) {
+            got = e.getClass().getName();
+        }
+        be(call + " throws", got, want.getName());
+    }
+
+    void close(String test) {
+        System.out.println(test + ": " + asked + " answers, " + wrong + " wrong");
+        if (wrong != 0 || asked == 0) {
+            System.exit(1);
+        }
+    }
+}
