@@ -60,7 +60,7 @@ public final class CountTest {
         FrameWriter frame = step(0);
         frame.level = 20;
         VideoDecoder x = new VideoDecoder();
-        // Differences of 4 x 4: a 0 first, then nothing; the step is made by the first square alone.
+        // Four squares of plane 0 and the one of plane 2 are empty; that of plane 1 has the step.
         Calls.decode(x, frame.bits("0 0 0 0  1100 0  0"));
         DUE.be("count 5", x.count(5), 1);
         DUE.be("plane 0 has no step", x.sample(0, 0, 8, 0), 128);

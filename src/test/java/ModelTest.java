@@ -86,7 +86,7 @@ public final class ModelTest {
             }
         }
         Calls.decode(x, many);
-        // 64 blocks, all with SKIP: of their first neighbours 60 saw one, 61 fifteen, 62 forty-eight or so.
+        // 64 blocks read a 0 with model 1011, and more than 20 weigh one half.
         DUE.be("n above 20", x.model(0, 1011), 128 * 128 + 255 * 128 + 128 >> 8);
         DUE.be("STILL and before", x.model(2, 60), 128);
         DUE.be("partition 64", x.model(0, 0), 125);

@@ -2,8 +2,8 @@ import java.util.Random;
 
 /** All promises together, on drawn streams, and on noise that is no stream. */
 public final class RandomStreamsTest {
-    // Of the states behind every chunk, by seed; a second decoder, written apart from the
-    // document alone and sample by sample, gave the same ones.
+    // Of the states behind every chunk, by seed. A second decoder, written sample by sample from
+    // the document and not kept here, gave the same ones.
     private static final int[] STATES = {
         -1106427292, -1948672817, 1222471920, 1323800594, -1918203119, -1956741378, 1219215715, -1819401171,
         -79558352, -1388460527, -69995444, -1006689597, -2108406916, 487541320, -949679588, -475885240,
