@@ -506,8 +506,7 @@ public final class VideoDecoder {
                 refreshed = bits.number(8);
             }
             if (still()) {
-                width = readSide(bits);
-                height = readSide(bits);
+                readWidthAndHeight(bits);
             } else {
                 readReferences(bits, slots);
             }
@@ -523,12 +522,12 @@ public final class VideoDecoder {
             }
         }
 
-        private static int readSide(PlainBits bits) {
-            int side = bits.number(8) + 1;
-            if (side > LARGEST) {
+        private void readWidthAndHeight(PlainBits bits) {
+            width = bits.number(8) + 1;
+            height = bits.number(8) + 1;
+            if (width > LARGEST || height > LARGEST) {
                 bits.meet(4);
             }
-            return side;
         }
 
         private void readReferences(PlainBits bits, Picture[] slots) {

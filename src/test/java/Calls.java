@@ -57,6 +57,16 @@ final class Calls {
         return out.toByteArray();
     }
 
+    /** Decodes a frame that is kept, and looks whether each model was read as often as it was written. */
+    static void decodeLearning(Due due, VideoDecoder decoder, FrameWriter frame) {
+        frame.keep = true;
+        due.be("decode", decode(decoder, frame), frame.shown ? 1 : 0);
+        due.be("count 4", decoder.count(4), frame.readings());
+        for (int k = 0; k < FrameWriter.MODELS; k++) {
+            due.be("model " + k, decoder.model(frame.context, k), frame.learnt(k));
+        }
+    }
+
     static int crc(byte[] bytes) {
         CRC32 crc = new CRC32();
         crc.update(bytes);

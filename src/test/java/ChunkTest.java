@@ -1,17 +1,31 @@
 import java.util.Arrays;
 import java.util.NoSuchElementException;
 
-/** Promises 4 and 5: chunks, their index, frames hidden and shown again, and all faults. */
+/** Promises 4 and 5, CHUNK and INDEX: which bytes are frames, how many were shown, where a fault was. */
 public final class ChunkTest {
     private static final Due DUE = new Due();
+    private static final byte[] NONE = {};
+    private static final byte[] WRONG = {0};
 
     public static void main(String[] args) {
-        plainChunks();
-        indexes();
-        hiddenAndAgain();
-        eachFault();
-        orderOfFaults();
-        faultChangesNothing();
+        emptyChunk();
+        indexBySizeAndNumber();
+        markersOnly192To223();
+        sameByteAtItsPlace();
+        shorterChunkHasNone();
+        lengthsLowestFirst();
+        framesEndWhereTheyEnd();
+        bytesBetween();
+        lengthZero();
+        lengthsTooLong();
+        lengthsThatWrapRound();
+        faultBeforeAnyFrame();
+        framesBeforeAFault();
+        framesBehindAFault();
+        faultsOfTheLastChunk();
+        hiddenFrames();
+        framesShownAgain();
+        howManyWereShown();
         DUE.close("ChunkTest");
     }
 
@@ -19,30 +33,29 @@ public final class ChunkTest {
         return FrameWriter.key(width, height).bits("100").bytes();
     }
 
-    private static FrameWriter still(int width, int height, int refreshed) {
-        FrameWriter frame = FrameWriter.key(width, height).bits("100");
-        frame.inter = true;
-        frame.intraOnly = true;
-        frame.refreshed = refreshed;
-        return frame;
+    private static byte[] joined(byte[] first, int... rest) {
+        byte[] out = Arrays.copyOf(first, first.length + rest.length);
+        for (int i = 0; i < rest.length; i++) {
+            out[first.length + i] = (byte) rest[i];
+        }
+        return out;
     }
 
-    private static void plainChunks() {
+    private static void emptyChunk() {
+        DUE.says("An empty one has none");
         VideoDecoder x = new VideoDecoder();
         DUE.be("decode of nothing", x.decode(), 0);
         DUE.be("fault 0", x.fault(0), 0);
         DUE.be("fault 1", x.fault(1), -1);
+        DUE.be("frames", x.count(1), 0);
         DUE.be("decode of one", Calls.decode(x, grey(8, 8)), 1);
-        DUE.be("count 0", x.count(0), 0);
-        DUE.be("decode of a wrong one", Calls.decode(x, new byte[] {0x40}), -2);
-        DUE.be("fault 1", x.fault(1), 0);
-        DUE.be("count 0 behind a fault", x.count(0), 0);
         DUE.be("decode of nothing", x.decode(), 0);
-        DUE.be("fault 0 is forgotten", x.fault(0), 0);
-        DUE.be("fault 1 is forgotten", x.fault(1), -1);
+        DUE.be("frames", x.count(1), 1);
+        DUE.be("what was shown stays", x.sample(-1, 0, 0, 0), 128);
     }
 
-    private static void indexes() {
+    private static void indexBySizeAndNumber() {
+        DUE.says("last byte is 192 + 8 * (s - 1) + (n - 1), s 1 .. 4, n 1 .. 8: an INDEX is behind its FRAMES");
         for (int bytes = 1; bytes <= 4; bytes++) {
             for (int frames = 1; frames <= 8; frames++) {
                 byte[][] all = new byte[frames][];
@@ -51,33 +64,228 @@ public final class ChunkTest {
                 }
                 VideoDecoder x = new VideoDecoder();
                 DUE.be("decode of " + frames, Calls.decode(x, Calls.chunk(bytes, all)), frames);
-                DUE.be("size", x.size(-1, 1), frames);
+                DUE.be("height", x.size(-1, 1), frames);
+                DUE.be("frames", x.count(1), frames);
+            }
+        }
+    }
+
+    private static void markersOnly192To223() {
+        DUE.says("Else it is one FRAME");
+        for (int marker = 0; marker < 256; marker++) {
+            if (marker < 192 || marker > 223) {
+                // Were there an index, its frames of no length would leave nothing to show.
+                for (int zeros = 1; zeros <= 40; zeros++) {
+                    byte[] chunk = joined(grey(8, 8), marker);
+                    chunk = Arrays.copyOf(chunk, chunk.length + zeros + 1);
+                    chunk[chunk.length - 1] = (byte) marker;
+                    VideoDecoder x = new VideoDecoder();
+                    DUE.be("decode with " + marker + " and " + zeros, Calls.decode(x, chunk), 1);
+                }
+            }
+        }
+    }
+
+    private static void sameByteAtItsPlace() {
+        DUE.says("the byte 2 + s * n from its end is the same");
+        for (int s = 1; s <= 4; s++) {
+            for (int n = 1; n <= 8; n++) {
+                int marker = 192 + 8 * (s - 1) + n - 1;
+                for (int place = s * n; place <= 4 + s * n; place++) {
+                    byte[] chunk = Arrays.copyOf(grey(8, 8), grey(8, 8).length + 36);
+                    chunk[chunk.length - 1] = (byte) marker;
+                    chunk[chunk.length - place] = (byte) marker;
+                    VideoDecoder x = new VideoDecoder();
+                    int due = place == 2 + s * n ? 0 : 1;
+                    DUE.be("decode with " + marker + " at " + place, Calls.decode(x, chunk), due);
+                    chunk[chunk.length - place] ^= (byte) 1;
+                    DUE.be("decode with another byte", Calls.decode(new VideoDecoder(), chunk), 1);
+                }
+            }
+        }
+    }
+
+    private static void shorterChunkHasNone() {
+        DUE.says("a shorter CHUNK has none");
+        for (int s = 1; s <= 4; s++) {
+            for (int n = 1; n <= 8; n++) {
+                int marker = 192 + 8 * (s - 1) + n - 1;
+                byte[] index = new byte[2 + s * n];
+                index[0] = (byte) marker;
+                index[index.length - 1] = (byte) marker;
+                VideoDecoder x = new VideoDecoder();
+                DUE.be("an index alone", Calls.decode(x, index), 0);
+                DUE.be("frames", x.count(1), 0);
+                byte[] shorter = Arrays.copyOfRange(index, 1, index.length);
+                shorter[0] = (byte) marker;
+                DUE.be("one byte less is a frame", Calls.decode(x, shorter), -2);
+                DUE.be("its number", x.fault(1), 0);
+                // A frame with what looks like the end of an index.
+                byte[] cut = new byte[1 + s * n];
+                cut[0] = (byte) 0x80;
+                cut[cut.length - 1] = (byte) marker;
+                int got = Calls.decode(x, cut);
+                DUE.be("one byte less, cut", got == -1 || got == -7 ? 1 : got, 1);
             }
         }
         VideoDecoder x = new VideoDecoder();
-        int length = grey(8, 8).length;
-        byte[] none = {};
-        byte[] loose = {1, 2, 3};
-        DUE.be("empty frames", Calls.decode(x, Calls.chunk(2, none, grey(8, 8), none)), 1);
-        DUE.be("frames counted", x.count(1), 1);
-        DUE.be("bytes between", Calls.decode(x, Calls.chunk(1, new int[] {length, 0}, grey(8, 8), loose)), 1);
-        DUE.be("an index alone", Calls.decode(x, Calls.chunk(1, none)), 0);
-        DUE.be("too long", Calls.decode(x, Calls.chunk(1, new int[] {length, 1}, grey(8, 8))), -8);
-        DUE.be("its frame", x.fault(1), -1);
-        DUE.be("nothing was decoded", x.count(1), 2);
-        DUE.be("far too long", Calls.decode(x, Calls.chunk(4, new int[] {-1, -1}, grey(8, 8))), -8);
-        DUE.be("third is wrong", Calls.decode(x, Calls.chunk(1, none, grey(9, 9), new byte[] {0}, grey(8, 8))), -2);
-        DUE.be("its frame", x.fault(1), 2);
-        DUE.be("the one before stays", x.size(-1, 0), 9);
-        DUE.be("count 1", x.count(1), 3);
-        DUE.be("count 2", x.count(2), 3);
-        byte[] noIndex = Arrays.copyOf(grey(8, 8), length + 1);
-        noIndex[length] = (byte) 200;
-        DUE.be("last byte like an index's", Calls.decode(x, noIndex), 1);
-        DUE.be("one byte like an index's", Calls.decode(x, new byte[] {(byte) 0xC0}), -2);
+        DUE.be("one byte", Calls.decode(x, new byte[] {(byte) 0xC0}), -2);
+        DUE.be("one byte", Calls.decode(x, new byte[] {(byte) 0xDF}), -2);
     }
 
-    private static void hiddenAndAgain() {
+    private static void lengthsLowestFirst() {
+        DUE.says("the lengths of n FRAMES, s bytes each, the lowest first");
+        byte[] longer = Arrays.copyOf(grey(8, 9), 258 + 256);
+        for (int s = 2; s <= 4; s++) {
+            VideoDecoder x = new VideoDecoder();
+            DUE.be("decode", Calls.decode(x, Calls.chunk(s, longer, grey(8, 10), longer, grey(8, 11))), 4);
+            DUE.be("height", x.size(-1, 1), 11);
+        }
+    }
+
+    private static void framesEndWhereTheyEnd() {
+        DUE.says("the FRAMES stand one behind the other from the CHUNK's first byte on");
+        VideoDecoder x = new VideoDecoder();
+        FrameWriter writer = FrameWriter.key(8, 8).bits("100 1010101010101010101010101010101010");
+        byte[] frame = writer.bytes();
+        int head = writer.headerLength();
+        int data = frame.length - writer.data.bytes().length;
+        for (int cut = 1; cut <= frame.length; cut++) {
+            // The rest of the frame stands behind its end, and does not count.
+            byte[] chunk = Calls.chunk(1, new int[] {cut, 0, 0}, frame);
+            DUE.be("cut to " + cut, Calls.decode(x, chunk), cut < head ? -1 : cut <= data ? -7 : 1);
+        }
+        byte[] both = Calls.chunk(1, new int[] {frame.length, 1}, frame, FrameWriter.again(3));
+        DUE.be("one and one", Calls.decode(x, both), 2);
+    }
+
+    private static void bytesBetween() {
+        DUE.says("Bytes between the FRAMES and the INDEX are not looked at");
+        int length = grey(8, 8).length;
+        for (byte[] loose : new byte[][] {{0}, {1, 2, 3}, {(byte) 0xC1, (byte) 0xC1}, grey(9, 9)}) {
+            VideoDecoder x = new VideoDecoder();
+            byte[] chunk = Calls.chunk(1, new int[] {length, 0}, grey(8, 8), loose);
+            DUE.be("decode", Calls.decode(x, chunk), 1);
+            DUE.be("width", x.size(-1, 0), 8);
+            DUE.be("frames", x.count(1), 1);
+        }
+        VideoDecoder x = new VideoDecoder();
+        DUE.be("nothing but such bytes", Calls.decode(x, Calls.chunk(2, new int[] {0, 0}, WRONG)), 0);
+        DUE.be("fault", x.fault(0), 0);
+    }
+
+    private static void lengthZero() {
+        DUE.says("a FRAME of length 0 is passed over");
+        VideoDecoder x = new VideoDecoder();
+        DUE.be("between two", Calls.decode(x, Calls.chunk(2, NONE, grey(8, 8), NONE, grey(8, 9), NONE)), 2);
+        DUE.be("frames", x.count(1), 2);
+        DUE.be("all eight", Calls.decode(x, Calls.chunk(1, NONE, NONE, NONE, NONE, NONE, NONE, NONE, NONE)), 0);
+        DUE.be("fault", x.fault(0), 0);
+        DUE.be("frames", x.count(1), 2);
+        DUE.be("height", x.size(-1, 1), 9);
+        DUE.says("the FRAME of it, from 0 (those of length 0 counted), at which that was");
+        for (int before = 0; before < 8; before++) {
+            byte[][] frames = new byte[before + 1][];
+            Arrays.fill(frames, NONE);
+            frames[before] = WRONG;
+            DUE.be("decode", Calls.decode(x, Calls.chunk(3, frames)), -2);
+            DUE.be("number", x.fault(1), before);
+        }
+    }
+
+    private static void lengthsTooLong() {
+        DUE.says("Fault 8: an INDEX whose lengths are more than there is before it");
+        int length = grey(8, 8).length;
+        for (int s = 1; s <= 4; s++) {
+            VideoDecoder x = new VideoDecoder();
+            DUE.be("just as long", Calls.decode(x, Calls.chunk(s, new int[] {length, 0}, grey(8, 8))), 1);
+            DUE.be("one more", Calls.decode(x, Calls.chunk(s, new int[] {length, 1}, grey(8, 8))), -8);
+            DUE.be("one more", Calls.decode(x, Calls.chunk(s, new int[] {length + 1}, grey(8, 8))), -8);
+            DUE.be("one more than nothing", Calls.decode(x, Calls.chunk(s, new int[] {1})), -8);
+            DUE.be("frames", x.count(1), 1);
+        }
+        VideoDecoder x = new VideoDecoder();
+        DUE.be("third byte", Calls.decode(x, Calls.chunk(3, new int[] {0x10000 + length}, grey(8, 8))), -8);
+        DUE.be("fourth byte", Calls.decode(x, Calls.chunk(4, new int[] {0x1000000 + length}, grey(8, 8))), -8);
+    }
+
+    private static void lengthsThatWrapRound() {
+        DUE.says("Fault 8, also where the sum of lengths would not go into an int");
+        int length = grey(8, 8).length;
+        int half = Integer.MIN_VALUE;
+        VideoDecoder x = new VideoDecoder();
+        DUE.be("highest bit", Calls.decode(x, Calls.chunk(4, new int[] {half}, grey(8, 8))), -8);
+        DUE.be("largest", Calls.decode(x, Calls.chunk(4, new int[] {-1}, grey(8, 8))), -8);
+        DUE.be("2 to the 32", Calls.decode(x, Calls.chunk(4, new int[] {half, half}, grey(8, 8))), -8);
+        DUE.be("and more", Calls.decode(x, Calls.chunk(4, new int[] {length, half, half}, grey(8, 8))), -8);
+        DUE.be("less than 0", Calls.decode(x, Calls.chunk(4, new int[] {length, -5}, grey(8, 8))), -8);
+        DUE.be("all", Calls.decode(x, Calls.chunk(4, new int[] {-1, -1, -1, -1, -1, -1, -1, -1}, grey(8, 8))), -8);
+        DUE.be("frames", x.count(1), 0);
+    }
+
+    private static void faultBeforeAnyFrame() {
+        DUE.says("Fault 8 is told before any FRAME, at FRAME -1");
+        VideoDecoder x = new VideoDecoder();
+        String before = Calls.memory(x);
+        byte[] frame = grey(8, 8);
+        byte[] chunk = Calls.chunk(1, new int[] {frame.length, 1, 200}, frame, WRONG);
+        DUE.be("decode", Calls.decode(x, chunk), -8);
+        DUE.be("fault 1", x.fault(1), -1);
+        DUE.be("memory", Calls.memory(x), before);
+    }
+
+    private static void framesBeforeAFault() {
+        DUE.says("the FRAMES of the CHUNK before it stay decoded (what was shown before it stays)");
+        VideoDecoder x = new VideoDecoder();
+        DUE.be("third is wrong", Calls.decode(x, Calls.chunk(1, grey(7, 7), grey(9, 9), WRONG)), -2);
+        DUE.be("fault 1", x.fault(1), 2);
+        DUE.be("width shown", x.size(-1, 0), 9);
+        DUE.be("width in slot 6", x.size(6, 0), 9);
+        DUE.be("frames", x.count(1), 2);
+        DUE.be("shown", x.count(2), 2);
+        DUE.be("block", x.block(1, 1, 5), 0);
+    }
+
+    private static void framesBehindAFault() {
+        DUE.says("those behind it are not looked at");
+        VideoDecoder x = new VideoDecoder();
+        DUE.be("first is wrong", Calls.decode(x, Calls.chunk(1, WRONG, grey(9, 9))), -2);
+        DUE.be("fault 1", x.fault(1), 0);
+        DUE.be("frames", x.count(1), 0);
+        DUE.thrown("width", NoSuchElementException.class, () -> x.size(-1, 0));
+        DUE.be("two wrong", Calls.decode(x, Calls.chunk(1, FrameWriter.again(2), WRONG)), -3);
+        DUE.be("fault 1", x.fault(1), 0);
+    }
+
+    private static void faultsOfTheLastChunk() {
+        DUE.says("the fault of the last CHUNK, 0 if it had none; -1");
+        VideoDecoder x = new VideoDecoder();
+        DUE.be("fault 0 of a new object", x.fault(0), 0);
+        DUE.be("fault 1 of a new object", x.fault(1), -1);
+        Calls.decode(x, Calls.chunk(1, NONE, WRONG));
+        x.feed(1, 2, 3, 4, 5);
+        x.end(0);
+        DUE.be("fault 0", x.fault(0), 2);
+        DUE.be("fault 1", x.fault(1), 1);
+        DUE.be("decode of nothing", x.decode(), 0);
+        DUE.be("fault 0 is forgotten", x.fault(0), 0);
+        DUE.be("fault 1 is forgotten", x.fault(1), -1);
+        Calls.decode(x, WRONG);
+        DUE.be("fault 1", x.fault(1), 0);
+        Calls.decode(x, Calls.chunk(1, new int[] {9}));
+        DUE.be("fault 0", x.fault(0), 8);
+        DUE.be("fault 1", x.fault(1), -1);
+        Calls.decode(x, grey(8, 8));
+        DUE.be("fault 0", x.fault(0), 0);
+        DUE.be("fault 1", x.fault(1), -1);
+        DUE.says("fault: IllegalArgumentException: another what");
+        for (int what : new int[] {-1, 2, Integer.MIN_VALUE, Integer.MAX_VALUE}) {
+            DUE.thrown("fault " + what, IllegalArgumentException.class, () -> x.fault(what));
+        }
+    }
+
+    private static void hiddenFrames() {
+        DUE.says("SHOWN: it is shown (else it is not)");
         VideoDecoder x = new VideoDecoder();
         FrameWriter hidden = FrameWriter.key(8, 8).bits("100");
         hidden.shown = false;
@@ -86,121 +294,49 @@ public final class ChunkTest {
         DUE.be("sample of slot 5", x.sample(5, 0, 0, 0), 128);
         DUE.be("count 1", x.count(1), 1);
         DUE.be("count 2", x.count(2), 0);
-        byte[] again = {FrameWriter.again(5)[0], 17, 99};
-        DUE.be("shown again", Calls.decode(x, again), 1);
-        DUE.be("sample of what is shown", x.sample(-1, 0, 0, 0), 128);
-        DUE.be("count 1", x.count(1), 2);
-        DUE.be("count 2", x.count(2), 1);
-        DUE.be("count 3 stays", x.count(3), 1);
-        DUE.be("block stays", x.block(0, 0, 5), 1);
+        Calls.decode(x, grey(5, 5));
+        Calls.decode(x, hidden);
+        DUE.be("shown last", x.size(-1, 0), 5);
+        DUE.be("in the slots", x.size(0, 0), 8);
     }
 
-    private static void eachFault() {
+    private static void framesShownAgain() {
+        DUE.says("AGAIN: its PICTURE is shown, and the FRAME is done (what is behind is not looked at)");
         VideoDecoder x = new VideoDecoder();
-        byte[] frame = grey(8, 8);
-        for (int first = 0; first < 256; first += 64) {
-            if (first != 128) {
-                DUE.be("first bits", Calls.decode(x, new byte[] {(byte) first, 1, 2, 3, 4, 5, 6, 7, 8, 9, 1}), -2);
+        Calls.decode(x, grey(8, 8));
+        for (int slot = 0; slot < 8; slot++) {
+            FrameWriter one = FrameWriter.intra(8, 9 + slot).bits("1 100 100 100 100");
+            one.refreshed = 1 << slot;
+            one.shown = false;
+            Calls.decode(x, one);
+        }
+        int blocks = x.count(3);
+        for (int slot = 0; slot < 8; slot++) {
+            byte first = FrameWriter.again(slot)[0];
+            // The last two bits of the byte and all bytes behind it mean nothing.
+            for (byte[] frame : new byte[][] {{first}, {(byte) (first | 3)}, {first, 17, 99}, {first, -1, 0, 5}}) {
+                int shown = x.count(2);
+                DUE.be("shown again", Calls.decode(x, frame), 1);
+                DUE.be("height", x.size(-1, 1), 9 + slot);
+                DUE.be("count 2", x.count(2), shown + 1);
             }
         }
-        DUE.be("AGAIN of nothing", Calls.decode(x, FrameWriter.again(7)), -3);
-        DUE.be("references to nothing", Calls.decode(x, FrameWriter.inter()), -3);
-        DUE.be("width 193", Calls.decode(x, grey(193, 8)), -4);
-        DUE.be("height 193", Calls.decode(x, grey(8, 193)), -4);
-        DUE.be("intra only, height 256", Calls.decode(x, still(8, 256, 1)), -4);
-        int head = 8;
-        for (int length = 1; length <= head + 1; length++) {
-            DUE.be("cut to " + length, Calls.decode(x, Arrays.copyOf(frame, length)), length < head ? -1 : -7);
-        }
-        DUE.be("nothing was decoded", x.count(1), 0);
-        DUE.be("8 x 8", Calls.decode(x, still(8, 8, 1)), 1);
-        DUE.be("16 x 8", Calls.decode(x, still(16, 8, 2)), 1);
-        DUE.be("8 x 16", Calls.decode(x, still(8, 16, 4)), 1);
-        for (int odd = 1; odd < 3; odd++) {
-            FrameWriter sizes = FrameWriter.inter();
-            sizes.references[1] = odd;
-            DUE.be("references of other sizes", Calls.decode(x, sizes), -5);
-        }
-        FrameWriter kernel = FrameWriter.inter();
-        kernel.kernel = 3;
-        DUE.be("kernel 3", Calls.decode(x, kernel), -6);
-        faultsOfSecondHeader(x);
+        DUE.be("count 1", x.count(1), 1 + 8 + 32);
+        DUE.be("count 3 stays", x.count(3), blocks);
+        DUE.be("count 7 stays", x.count(7), 1);
+        DUE.be("block stays", x.block(0, 1, 1), 1);
     }
 
-    private static void faultsOfSecondHeader(VideoDecoder x) {
-        FrameWriter frame = FrameWriter.key(8, 8).bits("100");
-        int behind = frame.bytes().length - 8;
-        frame.secondLength = 0;
-        DUE.be("second header of none", Calls.decode(x, frame), -7);
-        frame.secondLength = behind;
-        DUE.be("second header without data", Calls.decode(x, frame), -7);
-        frame.secondLength = 65535;
-        DUE.be("second header too long", Calls.decode(x, frame), -7);
-        frame.secondLength = behind - 1;
-        DUE.be("second header and one byte", Calls.decode(x, frame), 1);
-    }
-
-    private static void orderOfFaults() {
+    private static void howManyWereShown() {
+        DUE.says("decode: how many were shown");
         VideoDecoder x = new VideoDecoder();
-        Calls.decode(x, still(8, 8, 1));
-        Calls.decode(x, still(16, 8, 2));
-        FrameWriter frame = FrameWriter.inter();
-        frame.references = new int[] {0, 1, 5};
-        frame.kernel = 3;
-        frame.secondLength = 0;
-        DUE.be("3 before 5, 6, 7", Calls.decode(x, frame), -3);
-        frame.references[2] = 1;
-        DUE.be("5 before 6, 7", Calls.decode(x, frame), -5);
-        frame.references[1] = 0;
-        frame.references[2] = 0;
-        DUE.be("6 before 7", Calls.decode(x, frame), -6);
-        DUE.be("6 before 1", Calls.decode(x, Arrays.copyOf(frame.bytes(), 5)), -6);
-        DUE.be("1 before 6", Calls.decode(x, Arrays.copyOf(frame.bytes(), 3)), -1);
-        DUE.be("2 before 3", Calls.decode(x, new byte[] {0x3C}), -2);
-    }
-
-    /** A wrong frame that tells extras, features and a map must leave none of them behind. */
-    private static void faultChangesNothing() {
-        VideoDecoder x = new VideoDecoder();
-        VideoDecoder y = new VideoDecoder();
-        byte[] first = coloured(false).bytes();
-        DUE.be("first", Calls.decode(x, first), 1);
-        DUE.be("first", Calls.decode(y, first), 1);
-        String before = Calls.memory(x);
-        FrameWriter wrong = coloured(true);
-        wrong.secondLength = 0;
-        DUE.be("wrong", Calls.decode(x, wrong), -7);
-        wrong.resilient = true;
-        DUE.be("wrong", Calls.decode(x, wrong), -7);
-        FrameWriter key = coloured(false);
-        key.secondLength = 60000;
-        DUE.be("wrong", Calls.decode(x, key), -7);
-        DUE.be("memory", Calls.memory(x), before);
-        FrameWriter next = FrameWriter.inter();
-        next.inUse = true;
-        next.level = 30;
-        next.extrasCount = true;
-        next.transformMode = 1;
-        next.keep = true;
-        next.bits("1 11 0 1 0 0110 0 0 0 1 1 0");
-        DUE.be("next", Calls.decode(x, next), 1);
-        DUE.be("next", Calls.decode(y, next), 1);
-        DUE.be("memory", Calls.memory(x), Calls.memory(y));
-    }
-
-    private static FrameWriter coloured(boolean inter) {
-        FrameWriter frame = FrameWriter.key(16, 8);
-        frame.inter = inter;
-        frame.keep = true;
-        frame.transformMode = 1;
-        frame.inUse = true;
-        frame.tree = new int[] {128, 128, 128, 128, 128, 128, 128};
-        frame.featuresTold = true;
-        frame.absolute = inter;
-        frame.features[inter ? 0 : 3][0] = inter ? 3 : -30;
-        frame.features[inter ? 3 : 1][3] = 1;
-        frame.extrasCount = true;
-        frame.extras = new Integer[] {inter ? 9 : -2, 5, null, null, inter ? 20 : 3, 1};
-        return frame.bits("1 011 1 0 0 001 0 0 11000 0 0");
+        FrameWriter hidden = FrameWriter.key(8, 8).bits("100");
+        hidden.shown = false;
+        byte[] again = FrameWriter.again(7);
+        byte[] chunk = Calls.chunk(1, hidden.bytes(), again, grey(8, 8), hidden.bytes(), again, again);
+        DUE.be("two hidden, one shown, three again", Calls.decode(x, chunk), 4);
+        DUE.be("count 1", x.count(1), 6);
+        DUE.be("count 2", x.count(2), 4);
+        DUE.be("all hidden", Calls.decode(x, Calls.chunk(1, hidden.bytes(), hidden.bytes())), 0);
     }
 }

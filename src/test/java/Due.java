@@ -6,20 +6,25 @@ final class Due {
 
     private int wrong = 0;
     private int asked = 0;
+    private int sentences = 0;
+    private String sentence = "";
+
+    /** Tells the sentence of the document that the answers which follow are held against. */
+    void says(String words) {
+        sentences++;
+        sentence = words;
+    }
 
     void be(String call, long got, long want) {
-        asked++;
-        if (got != want) {
-            wrong++;
-            System.out.println(call + " answered " + got + ", due is " + want);
-        }
+        be(call, Long.toString(got), Long.toString(want));
     }
 
     void be(String call, String got, String want) {
         asked++;
         if (!got.equals(want)) {
             wrong++;
-            System.out.println(call + " answered " + got + ", due is " + want);
+            System.out.println(call + " answered " + got + ", due is " + want
+                    + (sentence.isEmpty() ? "" : " (" + sentence + ")"));
         }
     }
 
@@ -34,7 +39,7 @@ final class Due {
     }
 
     void close(String test) {
-        System.out.println(test + ": " + asked + " answers, " + wrong + " wrong");
+        System.out.println(test + ": " + sentences + " sentences, " + asked + " answers, " + wrong + " wrong");
         if (wrong != 0 || asked == 0) {
             System.exit(1);
         }

@@ -1,8 +1,11 @@
 import java.io.ByteArrayOutputStream;
+import java.util.Arrays;
 import java.util.TreeMap;
 
-/** Writes a frame; the fields are what its headers tell. */
+/** Writes a frame; the fields are what its headers tell. It knows what each model must learn from it. */
 final class FrameWriter {
+    static final int MODELS = 2941;
+
     boolean inter;
     boolean shown = true;
     boolean resilient;
@@ -23,6 +26,7 @@ final class FrameWriter {
     Integer[] extras;
     int base = 255;
     int[] deltas = {0, 0, 0};
+    boolean tellsZeroDeltas;
     boolean inUse;
     int[] tree;
     int[] guesses;
@@ -35,7 +39,19 @@ final class FrameWriter {
     final TreeMap<Integer, Integer> modelSteps = new TreeMap<>();
     final CodeWriter data = new CodeWriter();
     Integer secondLength;
+    byte[] rawSecond;
+    byte[] rawData;
     private final StringBuilder plain = new StringBuilder();
+    private final int[] before = new int[MODELS];
+    private final int[] zeros = new int[MODELS];
+    private final int[] ones = new int[MODELS];
+    private int readings;
+    private int headerBits;
+    private int headerLength;
+
+    FrameWriter() {
+        Arrays.fill(before, 128);
+    }
 
     static FrameWriter key(int width, int height) {
         FrameWriter frame = new FrameWriter();
@@ -54,13 +70,96 @@ final class FrameWriter {
         return new byte[] {(byte) (0xA0 | slot << 2)};
     }
 
+    /** An INTRA ONLY frame. */
+    static FrameWriter intra(int width, int height) {
+        FrameWriter frame = key(width, height);
+        frame.inter = true;
+        frame.intraOnly = true;
+        return frame;
+    }
+
     FrameWriter bits(String bits) {
         data.bits(bits);
         return this;
     }
 
+    /** Takes the models that the frame starts from out of its context. */
+    FrameWriter startFrom(VideoDecoder decoder) {
+        for (int k = 0; k < MODELS; k++) {
+            before[k] = decoder.model(context, k);
+        }
+        return this;
+    }
+
+    FrameWriter keeping() {
+        keep = true;
+        return this;
+    }
+
+    /** Tells each model a chance of its own, so that a bit read with another model goes wrong. */
+    FrameWriter spread() {
+        for (int k = 0; k < MODELS; k++) {
+            models.put(k, 60 + k * 37 % 137);
+        }
+        return this;
+    }
+
+    private int chance(int k) {
+        Integer value = models.get(k);
+        if (value != null) {
+            return Math.max(1, value);
+        }
+        Integer step = modelSteps.get(k);
+        return Math.max(1, Math.min(255, before[k] + (step == null ? 0 : step)));
+    }
+
+    /** Bits read with models one behind the other, the first with model k. */
+    FrameWriter m(int k, String bits) {
+        int at = k;
+        for (char c : bits.toCharArray()) {
+            if (c == '0' || c == '1') {
+                data.bit(c - '0', chance(at));
+                zeros[at] += '1' - c;
+                ones[at] += c - '0';
+                readings++;
+                at++;
+            }
+        }
+        return this;
+    }
+
+    /** So many ones, and a 0 behind them unless they are the most. */
+    FrameWriter ladder(int first, int rung, int most) {
+        return m(first, "1".repeat(rung) + (rung < most ? "0" : ""));
+    }
+
+    FrameWriter b(int chance, int bit) {
+        data.bit(bit, chance);
+        return this;
+    }
+
+    FrameWriter l(int width, int value) {
+        data.number(value, width);
+        return this;
+    }
+
+    int readings() {
+        return readings;
+    }
+
+    /** What model k must be in the context behind this frame, if it is kept and learns. */
+    int learnt(int k) {
+        int n = zeros[k] + ones[k];
+        if (n == 0) {
+            return before[k];
+        }
+        int w = Math.max(1, Math.min(255, (256 * zeros[k] + n / 2) / n));
+        int f = 128 * Math.min(n, 20) / 20;
+        return before[k] * (256 - f) + w * f + 128 >> 8;
+    }
+
     byte[] bytes() {
-        byte[] second = second();
+        byte[] second = rawSecond == null ? second() : rawSecond;
         plain.setLength(0);
         put(2, 2);
         put(0, 1);
@@ -88,20 +187,31 @@ final class FrameWriter {
         putFilter();
         put(base, 8);
         for (int delta : deltas) {
-            putSigned(delta == 0 ? null : delta, 4);
+            putSigned(delta == 0 && !tellsZeroDeltas ? null : delta, 4);
         }
         putSegments();
         put(secondLength == null ? second.length : secondLength, 16);
+        headerBits = plain.length();
         while (plain.length() % 8 != 0) {
-            plain.append('0');
+            plain.append('1');
         }
         ByteArrayOutputStream out = new ByteArrayOutputStream();
         for (int i = 0; i < plain.length(); i += 8) {
             out.write(Integer.parseInt(plain.substring(i, i + 8), 2));
         }
         out.writeBytes(second);
-        out.writeBytes(data.bytes());
+        headerLength = out.size() - second.length;
+        out.writeBytes(rawData == null ? data.bytes() : rawData);
         return out.toByteArray();
+    }
+
+    int headerBits() {
+        return headerBits;
+    }
+
+    /** The bytes of the plain header that was written last. */
+    int headerLength() {
+        return headerLength;
     }
 
     private byte[] second() {
@@ -120,7 +230,7 @@ final class FrameWriter {
                 code.number(doubling - 1, 1);
             }
         }
-        for (int k = 0; k < 2941; k++) {
+        for (int k = 0; k < MODELS; k++) {
             Integer value = models.get(k);
             Integer step = modelSteps.get(k);
             code.bit(value == null && step == null ? 0 : 1, 252);
