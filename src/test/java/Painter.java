@@ -1,3 +1,4 @@
+import java.util.Arrays;
 import java.util.List;
 import java.util.Random;
 
@@ -9,7 +10,41 @@ final class Painter {
     private final Random random;
     private final int[][][] samples = new int[3][][];
     private final boolean[][][] known = new boolean[3][][];
-    private VideoDecoder reference;
+    private final VideoDecoder reference;
+    private int[][][] wanted;
+
+    /** A whole picture of the samples that are wanted, LOSSLESS. */
+    static FrameWriter exact(int[][]... wanted) {
+        Painter painter = new Painter(wanted[0][0].length, wanted[0].length, null, 0);
+        painter.wanted = wanted;
+        painter.frame.base = 0;
+        painter.frame.transformMode = 0;
+        painter.divide(0, 0, 64);
+        return painter.frame;
+    }
+
+    /** Divides as little as the size of the picture allows. */
+    private void divide(int x, int y, int side) {
+        int right = (width + 7) / 8 * 8;
+        int bottom = (height + 7) / 8 * 8;
+        if (side == 64 && (width > 64 || height > 64)) {
+            throw new IllegalArgumentException("one square of 64 is all it can divide");
+        }
+        if (x >= right || y >= bottom) {
+            return;
+        }
+        boolean hasRight = x + side / 2 < right;
+        boolean hasLower = y + side / 2 < bottom;
+        if (side == 8 || hasRight && hasLower) {
+            bits(side == 8 ? "" : "0").still(x, y, side, side, 0, 0, 0, false);
+        } else if (hasRight) {
+            bits("0").still(x, y, side, side / 2, 0, 0, 0, false);
+        } else if (hasLower) {
+            bits("0").still(x, y, side / 2, side, 0, 0, 0, false);
+        } else {
+            divide(x, y, side / 2);
+        }
+    }
 
     /** With a decoder: a frame by references, of the picture that is in its slot 0. */
     Painter(int width, int height, VideoDecoder reference, long seed) {
@@ -52,7 +87,8 @@ final class Painter {
     /** A block that is not OTHER; without SKIP it has numbers that are drawn. */
     Painter still(int x, int y, int wide, int high, int size, int mode, int chroma, boolean skip) {
         int most = rank(Math.min(wide, high));
-        frame.bits(skip ? "1" : "0").bits(reference == null ? "" : "0").bits(ladder(size, most));
+        frame.bits(skip ? "1" : "0").bits(reference == null ? "" : "0");
+        frame.bits(frame.transformMode == 4 ? ladder(size, most) : "");
         frame.bits(ladder(mode, 9)).bits(ladder(chroma, 9));
         for (int plane = 0; plane < 3; plane++) {
             int half = plane == 0 ? 1 : 2;
@@ -97,12 +133,54 @@ final class Painter {
     private void square(int plane, int x, int y, int size, int mode, boolean skip) {
         int side = 4 << size;
         int[][] predicted = predicted(plane, x, y, side, mode);
-        int[][] more = skip ? new int[side][side] : drawn(plane, size, mode);
+        int[][] more = skip ? new int[side][side]
+                : wanted != null ? missing(plane, x, y, predicted) : drawn(plane, size, mode);
         for (int v = 0; v < side; v++) {
             for (int h = 0; h < side; h++) {
                 put(plane, x + h, y + v, Math.max(0, Math.min(255, predicted[v][h] + more[v][h])));
             }
         }
+    }
+
+    /** What the samples that are wanted have more than the prediction, written as LOSSLESS numbers. */
+    private int[][] missing(int plane, int x, int y, int[][] predicted) {
+        int[][] more = new int[4][4];
+        int[][] rows = new int[4][4];
+        for (int h = 0; h < 4; h++) {
+            int[] column = new int[4];
+            for (int v = 0; v < 4; v++) {
+                int[] row = wanted[plane][Math.min(y + v, wanted[plane].length - 1)];
+                column[v] = row[Math.min(x + h, row.length - 1)] - predicted[v][h];
+                more[v][h] = column[v];
+            }
+            column = undone(column);
+            for (int v = 0; v < 4; v++) {
+                rows[v][h] = column[v];
+            }
+        }
+        int[] numbers = new int[16];
+        int[][] all = new int[4][];
+        for (int v = 0; v < 4; v++) {
+            all[v] = undone(rows[v]);
+        }
+        int used = 0;
+        for (int i = 0; i < 16; i++) {
+            int[] place = Numbers.scan(4, 0).get(i);
+            numbers[i] = all[place[1]][place[0]];
+            used = numbers[i] == 0 ? used : i + 1;
+        }
+        Numbers.write(frame, 0, plane, false, 0, 0, Arrays.copyOf(numbers, used));
+        return more;
+    }
+
+    /** The four numbers of which the LOSSLESS transform makes these. */
+    private static int[] undone(int[] four) {
+        int a = four[0] + four[1];
+        int d = four[3] - four[2];
+        int e = a - d >> 1;
+        int b = e - four[1];
+        int c = e - four[2];
+        return new int[] {a - b, b, c, d + c};
     }
 
     private int[][] drawn(int plane, int size, int mode) {
