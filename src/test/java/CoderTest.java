@@ -14,6 +14,7 @@ public final class CoderTest {
         transformModes();
         losslessHasNoMode();
         doubleBySides();
+        sidesAlikeBehindDoubles();
         stillHasNoDouble();
         stepsWithinLimits();
         valuesTold();
@@ -142,6 +143,17 @@ public final class CoderTest {
         VideoDecoder x = new VideoDecoder();
         Calls.decodeLearning(DUE, x, frame.m(0, "0").m(60, "1").ladder(75, 0, 9).ladder(1011, 3, 9));
         DUE.be("SIZE", x.block(7, 7, 6), 0);
+        // Also behind a frame that had another mode.
+        for (int mode = 1; mode <= 4; mode++) {
+            FrameWriter before = FrameWriter.key(64, 64);
+            before.transformMode = mode;
+            Calls.decode(x, before);
+            FrameWriter after = FrameWriter.inter();
+            after.base = 0;
+            after.refreshed = 0;
+            Calls.decodeLearning(DUE, x, after.m(0, "0").m(60, "1").m(1101, "1").m(1110, "0").m(1116, "0"));
+            DUE.be("SIZE behind mode " + mode, x.block(7, 7, 6), 0);
+        }
     }
 
     private static void doubleBySides() {
@@ -169,6 +181,23 @@ public final class CoderTest {
                 DUE.be("first", x.block(0, 0, 9), 1);
                 DUE.be("second", x.block(0, 0, 10), !alike && doubling > 0 ? 2 : -1);
             }
+        }
+    }
+
+    private static void sidesAlikeBehindDoubles() {
+        DUE.says("all SIDES alike: none (also behind a frame whose blocks were DOUBLE)");
+        for (int doubling = 1; doubling <= 2; doubling++) {
+            VideoDecoder x = new VideoDecoder();
+            Calls.decode(x, FrameWriter.key(8, 8).bits("100"));
+            FrameWriter before = FrameWriter.inter();
+            before.sides[0] = 1;
+            before.doubling = doubling;
+            Calls.decode(x, before.bits("1 1 1 1 0"));
+            DUE.be("second of the frame before", x.block(0, 0, 10), 2);
+            FrameWriter frame = FrameWriter.inter();
+            frame.context = 1;
+            Calls.decodeLearning(DUE, x, frame.m(60, "1").m(1101, "1").m(1110, "0").m(1116, "0"));
+            DUE.be("second", x.block(0, 0, 10), -1);
         }
     }
 

@@ -15,6 +15,7 @@ public final class FilterTest {
         firstEdgeOfBareBlocks();
         levelOfTheBlockBehind();
         levelOfSegments();
+        featuresSideBySide();
         levelWithExtras();
         scaleOfExtras();
         levelBecomesZero();
@@ -306,6 +307,33 @@ public final class FilterTest {
                 measured("LEVEL " + level + " and " + told, frame.bits("1 0" + BARE + "0" + BARE), l, 0);
                 frame = segmented(copy(0, level, 0), true, told);
                 measured("ABSOLUTE " + told, frame.bits("1 0" + BARE + "0" + BARE), Math.max(0, told), 0);
+            }
+        }
+    }
+
+    private static void featuresSideBySide() {
+        DUE.says("for each of eight segments: quantiser; filter level; block's reference; skip: each for itself");
+        for (int segment = 0; segment < 8; segment++) {
+            FrameWriter frame = copy(0, 9, 0);
+            frame.inUse = true;
+            frame.tree = new int[] {128, 128, 128, 128, 128, 128, 128};
+            frame.featuresTold = true;
+            frame.absolute = true;
+            for (int i = 0; i < 8; i++) {
+                frame.features[i] = i == segment ? new Integer[] {100, 30, 1, null} : new Integer[] {5, 60, 3, 1};
+            }
+            String number = "0".repeat(3 - Integer.toBinaryString(segment).length()) + Integer.toBinaryString(segment);
+            // No bit for OTHER and REFERENCE; a number of 9 in plane 1 tells the quantiser: 4 + 100 + 78.
+            frame.bits("1 0" + number + "0 0" + "0".repeat(16) + "1 1 1 1110 000 0 0" + "000" + "0000");
+            VideoDecoder x = painted(measure(30, 0));
+            DUE.be("decode", Calls.decode(x, frame.bits("0" + number + "1 0")), 1);
+            DUE.be("REFERENCE", x.block(1, 1, 9), 0);
+            DUE.be("SKIP of the left one", x.block(1, 1, 5), 0);
+            DUE.be("segment of the right one", x.block(2, 0, 4), segment);
+            DUE.be("quantiser", x.sample(-1, 1, 0, 0), 128 + 13);
+            for (int y = 0; y < 16; y++) {
+                boolean changed = x.sample(-1, 0, 16, y) != x.sample(0, 0, 16, y);
+                DUE.be("level, line " + y, changed ? 1 : 0, 1 - y % 2);
             }
         }
     }

@@ -19,6 +19,7 @@ public final class StillTest {
         lastOfD45();
         trueMotionIsClipped();
         squaresWithSkipToo();
+        largestPicture();
         DUE.close("StillTest");
     }
 
@@ -260,6 +261,18 @@ public final class StillTest {
             VideoDecoder x = decoded(frame);
             DUE.be("neighbour", x.sample(0, 0, 15, 0), 128 + sign * 90);
             DUE.be("TM", x.sample(0, 0, 12, 12), sign > 0 ? 255 : 0);
+        }
+    }
+
+    private static void largestPicture() {
+        DUE.says("PICTURES: 1 .. 192 samples wide (W) and high (H); three PLANES");
+        for (int side : new int[] {191, 192}) {
+            Painter painter = new Painter(side, side, null, side);
+            painter.frame.base = 60;
+            for (int i = 0; i < 9; i++) {
+                painter.bits("0").still(i % 3 * 64, i / 3 * 64, 64, 64, i % 4, i, 9 - i, false);
+            }
+            painter.check(DUE, "side " + side, new VideoDecoder());
         }
     }
 
