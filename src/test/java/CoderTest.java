@@ -19,6 +19,8 @@ public final class CoderTest {
         stepsWithinLimits();
         valuesTold();
         firstAndLastModel();
+        secondHeaderOfOnes();
+        eachModelItsChance();
         bitsOfModelsAlone();
         DUE.close("CoderTest");
     }
@@ -276,6 +278,62 @@ public final class CoderTest {
             int due = k % 3 == 0 ? 1 + k * 7 % 255 : k % 3 == 1 ? 129 + k % 16 : 128;
             DUE.be("model " + k, x.model(0, k), due);
         }
+    }
+
+    private static void secondHeaderOfOnes() {
+        DUE.says("for each MODEL: B(252): 1: it is changed; and nothing more behind the last");
+        FrameWriter frame = FrameWriter.key(8, 8);
+        frame.keep = true;
+        frame.fixed = true;
+        frame.rawSecond = new byte[6000];
+        Arrays.fill(frame.rawSecond, (byte) 255);
+        frame.rawData = new byte[] {0};
+        VideoDecoder x = new VideoDecoder();
+        DUE.be("decode", Calls.decode(x, frame), 1);
+        for (int k = 0; k < FrameWriter.MODELS; k++) {
+            DUE.be("model " + k, x.model(0, k), 255);
+        }
+    }
+
+    private static void eachModelItsChance() {
+        DUE.says("M(k): B of MODEL k");
+        VideoDecoder x = new VideoDecoder();
+        for (int mode = 0; mode < 10; mode++) {
+            FrameWriter frame = FrameWriter.key(32, 32).spread().m(20, "110");
+            frame.transformMode = 4;
+            frame.m(60, "0").m(70, "10").ladder(75, mode, 9).ladder(1011 + 9 * mode, 9 - mode, 9);
+            int order = mode == 1 || mode == 5 || mode == 8 ? 1 : mode == 2 || mode == 6 || mode == 7 ? 2 : 0;
+            // Two columns and four rows of 8 x 8, then two squares of 8 x 8 in each plane of chroma.
+            for (int i = 0; i < 8; i++) {
+                int c = i == 0 ? 0 : i == 1 || i % 2 == 0 ? 1 : 2;
+                Numbers.write(frame, 1, 0, false, order, c, 5, 0, 0, -300, 1, 2, -3 - i, 20000);
+            }
+            for (int plane = 1; plane < 3; plane++) {
+                for (int i = 0; i < 2; i++) {
+                    Numbers.write(frame, 1, plane, false, 0, i, 0, 7, -2, 30000, 1, 1, 1, 0, 0, 1, 0, 1);
+                }
+            }
+            frame.m(60, "1").m(70, "10").ladder(75 + 9 * mode, 9, 9).ladder(1092, mode, 9);
+            Calls.decodeLearning(DUE, x, frame);
+        }
+        FrameWriter frame = FrameWriter.inter().spread();
+        frame.context = 1;
+        frame.fine = true;
+        frame.kernel = 2;
+        frame.transformMode = 3;
+        frame.m(20, "10").m(60, "1").m(1101, "1").m(1110, "11").m(1116, "111").m(1125, "1");
+        frame.m(1128, "111").m(1131, "1").m(1132, "1110").m(1140, "101").m(1153, "1").m(1155, "0").m(1157, "1");
+        frame.m(1158, "0").m(1159, "1111111").m(1167, "1011001").m(1180, "0").m(1181, "1").m(1184, "0");
+        frame.m(61, "0").m(1102, "0").ladder(984, 4, 9).ladder(1047, 8, 9);
+        Numbers.write(frame, 2, 0, false, 0, 0, 1, 2, 3);
+        Numbers.write(frame, 2, 0, false, 0, 1, 9, 0, 3);
+        Numbers.none(frame, 1, 1, false, 0);
+        Numbers.none(frame, 1, 1, false, 0);
+        Numbers.write(frame, 1, 2, false, 0, 0, -1);
+        Numbers.none(frame, 1, 2, false, 1);
+        Calls.decodeLearning(DUE, x, frame);
+        DUE.be("vector y", x.block(0, 0, 13), -(64 + 8 * 5 + 4 + 1 + 1));
+        DUE.be("vector x", x.block(0, 0, 12), 1024 + 8 * 77 + 2 + 1);
     }
 
     private static void bitsOfModelsAlone() {

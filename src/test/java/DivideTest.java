@@ -19,6 +19,7 @@ public final class DivideTest {
         quartersRowByRow();
         dataOfAllUnits();
         unitsInside();
+        mostBlocks();
         DUE.close("DivideTest");
     }
 
@@ -294,6 +295,29 @@ public final class DivideTest {
         VideoDecoder x = decoded(frame, 1);
         for (int i = 0; i < 25; i++) {
             due(x, i % 5, i / 5, 0, 0, 8, 8, 0, 1, 0, 4, 2, -1, -1, -1, 0, 0, 0, 0, -1);
+        }
+    }
+
+    private static String eights(String block) {
+        String sixteen = "111" + block.repeat(4);
+        String thirtyTwo = "111" + sixteen.repeat(4);
+        return ("111" + thirtyTwo.repeat(4)).repeat(9);
+    }
+
+    private static void mostBlocks() {
+        DUE.says("192 x 192 in blocks of 8 x 8: as many as there can be, frame behind frame");
+        VideoDecoder x = new VideoDecoder();
+        Calls.decode(x, FrameWriter.key(192, 192).bits(eights("100")));
+        for (int i = 0; i < 4; i++) {
+            DUE.be("blocks", x.count(3), 576);
+            for (int unit = 0; unit < 576; unit++) {
+                due(x, unit % 24, unit / 24, unit % 24, unit / 24, 1, 1, 0, 1);
+                DUE.be("REFERENCE", x.block(unit % 24, unit / 24, 9), i == 0 ? -1 : i - 1);
+            }
+            DUE.thrown("column 24", IndexOutOfBoundsException.class, () -> x.block(24, 3, 0));
+            DUE.thrown("row 24", IndexOutOfBoundsException.class, () -> x.block(3, 24, 0));
+            String reference = new String[] {"0", "10", "11", "0"}[i];
+            DUE.be("next", Calls.decode(x, FrameWriter.inter().bits(eights("1 1" + reference + "10"))), 1);
         }
     }
 

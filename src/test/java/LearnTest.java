@@ -122,6 +122,8 @@ public final class LearnTest {
         DUE.be("one 1", learnt(128, 1, 0), 125);
         DUE.be("1 of 3", learnt(128, 3, 1), (128 * (256 - 19) + 85 * 19 + 128) / 256);
         DUE.be("2 of 3", learnt(100, 3, 2), (100 * (256 - 19) + 171 * 19 + 128) / 256);
+        DUE.be("just below one half", learnt(156, 3, 0), (156 * (256 - 19) + 19 + 128) / 256);
+        DUE.be("just one half", learnt(65, 1, 0), (65 * (256 - 6) + 6 + 128) / 256);
         for (int n = 2; n <= 24; n += 3) {
             for (int zeros = 0; zeros <= n; zeros += 2) {
                 learnt(90, n, zeros);

@@ -10,6 +10,7 @@ public final class SyntaxTest {
         sizesUpToTheMost();
         sizesByNeighbours();
         bareNeighboursCountAsMost();
+        smallBareNeighbours();
         stillModes();
         modesByNeighbours();
         modesOfOtherFrames();
@@ -228,6 +229,41 @@ public final class SyntaxTest {
                 DUE.be("SIZE of the left one", x.block(0, 0, 6), bare ? 3 : 0);
                 DUE.be("SIZE of the right one", x.block(5, 3, 6), 0);
             }
+        }
+    }
+
+    /** Three blocks of 16 x 16 and four of 8 x 8 that are bare, on the left of the last one or above it. */
+    private static void smallBareNeighbours() {
+        DUE.says("MAX if one has SKIP and OTHER, also if its own size is less");
+        for (int above = 0; above < 2; above++) {
+            VideoDecoder x = grey(32, 32);
+            FrameWriter frame = FrameWriter.inter().m(20, "111");
+            frame.transformMode = 4;
+            frame.m(40, "0").m(60, "1").m(1101, "0").m(70, "10").ladder(984, 0, 9).ladder(1011, 0, 9);
+            for (int i = 0; i < 2; i++) {
+                if (i == above) {
+                    // Beside the first one: MAX, which is not there, and 1 are above 2.
+                    frame.m(40, "0").m(61, "1").m(1101, "0").m(70, "10");
+                    frame.ladder(984, 0, 9).ladder(1011, 0, 9);
+                } else {
+                    frame.m(40, "111");
+                    bareEights(frame, i == 0);
+                }
+            }
+            frame.m(above == 1 ? 45 : 50, "0").m(62, "1").m(1102, "0").m(70, "10");
+            decode(x, frame.ladder(984, 0, 9).ladder(1011, 0, 9));
+            DUE.be("SIZE", x.block(3, 3, 6), 1);
+            DUE.be("blocks", x.count(3), 7);
+        }
+    }
+
+    /** The first and third (or first and second) of them have the block that is not OTHER beside them. */
+    private static void bareEights(FrameWriter frame, boolean rightOfIt) {
+        for (int i = 0; i < 4; i++) {
+            boolean besideOwn = rightOfIt ? i % 2 == 0 : i < 2;
+            boolean hasSecond = rightOfIt ? i >= 2 : i % 2 == 1;
+            int others = (besideOwn ? 0 : 1) + (hasSecond ? 1 : 0);
+            frame.m(61 + (hasSecond ? 1 : 0), "1").m(1101 + others, "1").m(1110 + 2 * others, "0").m(1116, "0");
         }
     }
 
