@@ -30,6 +30,7 @@ public final class BlockTest {
     }
 
     private static void divisions() {
+        DUE.says("0 its first column, 1 its first row, 2 width, 3 height, in UNITS");
         VideoDecoder x = key16("0 100");
         due(x, 1, 1, 0, 0, 0, 2, 2, 0, 1, 0, 0, 0, -1, -1, -1, 0, 0, 0, 0, -1);
         DUE.be("one", x.count(3), 1);
@@ -47,6 +48,7 @@ public final class BlockTest {
     }
 
     private static void halvesAtTheEdge() {
+        DUE.says("Middle row not: the upper half alone; Column not: the left half alone");
         VideoDecoder x = new VideoDecoder();
         Calls.decode(x, FrameWriter.key(24, 8).bits("0 100"));
         due(x, 2, 0, 0, 0, 0, 4, 2);
@@ -60,6 +62,7 @@ public final class BlockTest {
     }
 
     private static void wrongArguments() {
+        DUE.says("IndexOutOfBoundsException, first: that has no such UNIT; IllegalArgumentException: another what");
         VideoDecoder x = new VideoDecoder();
         Calls.decode(x, FrameWriter.key(24, 8).bits("0 100"));
         DUE.thrown("column 3", IndexOutOfBoundsException.class, () -> x.block(3, 0, 0));
@@ -71,6 +74,7 @@ public final class BlockTest {
     }
 
     private static void sizes() {
+        DUE.says("6 SIZE of its transform (0 .. 3 for 4 .. 32)");
         for (int mode = 0; mode < 4; mode++) {
             VideoDecoder x = new VideoDecoder();
             FrameWriter frame = FrameWriter.key(64, 64);
@@ -101,6 +105,7 @@ public final class BlockTest {
     }
 
     private static void segments() {
+        DUE.says("4 segment; 5 SKIP");
         for (int segment = 0; segment < 8; segment++) {
             VideoDecoder x = new VideoDecoder();
             FrameWriter frame = segmented(FrameWriter.key(8, 8));
@@ -123,6 +128,7 @@ public final class BlockTest {
     }
 
     private static void guesses() {
+        DUE.says("B(GUESS n): 1: the GUESS value (guessed right); 0: TREE");
         VideoDecoder x = new VideoDecoder();
         FrameWriter frame = segmented(FrameWriter.key(16, 16));
         frame.data.bits("111").bit(1, 10).bit(1, 30).bit(0, 70).bits("100");
@@ -163,6 +169,7 @@ public final class BlockTest {
     }
 
     private static void vectors() {
+        DUE.says("12, 13 first vector x, y");
         vector(true, "0", 0, 0);
         vector(true, "10  0 0 1 01 0", 11, 0);
         vector(false, "10  0 0 1 01", 12, 0);
@@ -174,6 +181,7 @@ public final class BlockTest {
 
     /** The second block finds the first one's vector, or another reference's turned round. */
     private static void nearest() {
+        DUE.says("11 KIND (0 ZERO, 1 NEAREST, 2 NEAR, 3 NEW)");
         for (int turned = 0; turned < 2; turned++) {
             VideoDecoder x = new VideoDecoder();
             Calls.decode(x, FrameWriter.key(16, 8).bits("1 100 100"));
@@ -198,6 +206,7 @@ public final class BlockTest {
 
     /** The reference has the slope of one number of 4 x 4 in its first square. */
     private static void samplesByVectors() {
+        DUE.says("K, KERNEL 0, f = 0 .. 8; KERNEL 1: 128 - 8 * f at i 3, 8 * f at 4");
         int[] line = {129, 130, 131, 132, 136, 136, 136, 136};
         moved("0 11 1", 0, false, new int[] {130, 131, 132, 136, 136, 136, 136, 136});
         moved("0 01 1", 1, false, new int[] {130, 131, 132, 134, 136, 136, 136, 136});
@@ -233,6 +242,7 @@ public final class BlockTest {
     }
 
     private static void doubles() {
+        DUE.says("9 first REFERENCE; 10 second; DOUBLE: R(both, 1)");
         VideoDecoder x = new VideoDecoder();
         Calls.decode(x, FrameWriter.key(8, 8).bits("0 0 0  1100 0  0 0 0  0 0"));
         FrameWriter dark = FrameWriter.key(8, 8);

@@ -17,6 +17,7 @@ public final class CountTest {
     }
 
     private static void counts() {
+        DUE.says("3 blocks, 4 BITS read with MODELS, 5 NUMBERS that were not 0, 6 lines, 7 KEY 0, INTRA ONLY 1, else 2");
         VideoDecoder x = new VideoDecoder();
         Calls.decode(x, FrameWriter.key(8, 8).bits("0 0 0  1100 0  0 0 0  0 0"));
         due(x, 1, 1, 1, 3 + 4 + 3 + 2, 1, 0, 0);
@@ -44,6 +45,7 @@ public final class CountTest {
     }
 
     private static void filterOfEight() {
+        DUE.says("8 or more and FLAT: n = 3");
         FrameWriter frame = step(1);
         frame.level = 20;
         VideoDecoder x = new VideoDecoder();
@@ -57,6 +59,7 @@ public final class CountTest {
 
     /** Without any flat filter: f is 18, q0 goes down and p0 up by 2, the next ones by 1. */
     private static void filterOfFour() {
+        DUE.says("not HEV: f = R(f1, 1), q1 = s8(q1 - f), p1 = s8(p1 + f)");
         FrameWriter frame = step(0);
         frame.level = 20;
         VideoDecoder x = new VideoDecoder();
@@ -74,6 +77,7 @@ public final class CountTest {
 
     /** The level by segment and extras; with a level of 0 nothing is filtered. */
     private static void levels() {
+        DUE.says("6 lines that the FILTER changed (0 with LEVEL 0)");
         for (int kind = 0; kind < 5; kind++) {
             FrameWriter frame = FrameWriter.key(16, 8);
             frame.transformMode = 1;

@@ -317,7 +317,9 @@ public final class DivideTest {
             DUE.thrown("column 24", IndexOutOfBoundsException.class, () -> x.block(24, 3, 0));
             DUE.thrown("row 24", IndexOutOfBoundsException.class, () -> x.block(3, 24, 0));
             String reference = new String[] {"0", "10", "11", "0"}[i];
-            DUE.be("next", Calls.decode(x, FrameWriter.inter().bits(eights("1 1" + reference + "10"))), 1);
+            FrameWriter next = FrameWriter.inter().bits(eights("1 1" + reference + "10"));
+            next.level = 20;
+            DUE.be("next", Calls.decode(x, next), 1);
         }
     }
 

@@ -9,6 +9,7 @@ import java.util.TreeSet;
 public final class FaceTest {
     public static void main(String[] args) {
         Due due = new Due();
+        due.says("Nothing is shown, all SLOTS are empty, all MODELS are 128");
         VideoDecoder x = new VideoDecoder();
         for (int context = 0; context < 4; context++) {
             for (int k = 0; k < 2941; k++) {
@@ -43,6 +44,7 @@ public final class FaceTest {
     }
 
     private static void face(Due due) {
+        due.says("The public face");
         String[] names = {"feed", "end", "decode", "fault", "sample", "check", "size", "model", "block", "count"};
         TreeSet<String> methods = new TreeSet<>();
         for (Method method : VideoDecoder.class.getDeclaredMethods()) {

@@ -28,6 +28,7 @@ public final class FilterTest {
         heldInEightBits();
         meansAtTheEnds();
         linesThatChange();
+        drawnLines();
         planesAndDirections();
         unitsInsideOnly();
         chromaSizes();
@@ -283,6 +284,12 @@ public final class FilterTest {
         DUE.be("lines of SKIP alone", x.count(6), 8);
         DUE.be("the step of the left one", x.sample(-1, 0, 7, 4) - x.sample(-1, 0, 7, 3), 6);
         DUE.be("the step of the right one", x.sample(-1, 0, 12, 4) - x.sample(-1, 0, 12, 3) < 6 ? 1 : 0, 1);
+        // The same by DC: the squares are 120, 120 above 123, 122, and the flat edge between them is filtered.
+        x = painted(turned(steps(8, 16, 4, 6)));
+        Calls.decode(x, copy(0, 0, 0).bits("1" + BARE + "1 0 0 0"));
+        DUE.be("below", x.sample(-1, 0, 14, 4), 122);
+        Calls.decode(x, copy(0, 30, 0).bits("1" + BARE + "1 0 0 0"));
+        DUE.be("below, filtered", x.sample(-1, 0, 14, 4), 121);
     }
 
     private static void levelOfTheBlockBehind() {
@@ -394,6 +401,15 @@ public final class FilterTest {
         VideoDecoder x = painted(measure(60, 0));
         Calls.decode(x, frame.bits("1 0" + BARE + "0" + BARE));
         DUE.be("level 0 by segment", x.count(6), 0);
+        // Held at 0 before the extras: nothing is left to add to.
+        frame = segmented(extra(copy(0, 20, 0), 0, 30, 0, 0, 30, 0), true, -1);
+        x = painted(measure(60, 0));
+        Calls.decode(x, frame.bits("1 0" + BARE + "0" + BARE));
+        DUE.be("less than 0 by segment", x.count(6), 0);
+        frame = segmented(extra(copy(0, 20, 0), 0, 30, 0, 0, 30, 0), false, -21);
+        x = painted(measure(60, 0));
+        Calls.decode(x, frame.bits("1 0" + BARE + "0" + BARE));
+        DUE.be("less than 0 by sum", x.count(6), 0);
         frame = extra(copy(0, 20, 0), 0, -20, 0, 0, 0, 0);
         x = painted(measure(60, 0));
         Calls.decode(x, frame.bits("1 0" + BARE + "0" + BARE));
@@ -592,6 +608,34 @@ public final class FilterTest {
             due += Arrays.equals(line, Smoother.line(line, 8, 20, 0)) ? 0 : 1;
         }
         DUE.be("size 8", x.count(6), due);
+    }
+
+    private static void drawnLines() {
+        DUE.says("For each of its four lines across: .. (all of it, on drawn lines)");
+        Random random = new Random(9);
+        for (int turn = 0; turn < 60; turn++) {
+            int l = new int[] {3, 10, 17, 33, 50, 63}[turn % 6];
+            int sharp = turn % 10 > 7 ? 1 + turn % 7 : 0;
+            int i = sumOf(l, sharp) - 2 * (l + 2);
+            int[][] lines = new int[16][16];
+            for (int[] line : lines) {
+                // Steps up to the limit on both sides, and a gap whose sum is about as large as b.
+                line[7] = 128 + random.nextInt(41) - 20;
+                int gap = (sumOf(l, sharp) + random.nextInt(9) - 4) * 2 / 5;
+                line[8] = line[7] + (random.nextBoolean() ? gap : -gap);
+                int reach = 1 + random.nextInt(i);
+                for (int k = 1; k < 8; k++) {
+                    line[7 - k] = clip(line[8 - k] + random.nextInt(2 * reach + 1) - reach);
+                    line[8 + k] = clip(line[7 + k] + random.nextInt(2 * reach + 1) - reach);
+                }
+                line[8] = clip(line[8]);
+            }
+            lines("drawn", lines, turn % 3, l, sharp);
+        }
+    }
+
+    private static int clip(int v) {
+        return Math.max(0, Math.min(255, v));
     }
 
     /** A copied picture of small differences, blocks by bits, against the whole filter. */

@@ -23,6 +23,7 @@ public final class ModelTest {
     }
 
     private static void notKept() {
+        DUE.says("MODEL k of CONTEXT, as that holds it: not kept");
         VideoDecoder x = new VideoDecoder();
         Calls.decode(x, grey());
         DUE.be("SKIP", x.block(0, 0, 5), 1);
@@ -37,6 +38,7 @@ public final class ModelTest {
     }
 
     private static void fixed() {
+        DUE.says("as that holds it: FIXED or RESILIENT");
         VideoDecoder x = new VideoDecoder();
         FrameWriter frame = grey();
         frame.keep = true;
@@ -69,6 +71,7 @@ public final class ModelTest {
     }
 
     private static void learnt() {
+        DUE.says("as that holds it: put together");
         VideoDecoder x = new VideoDecoder();
         FrameWriter frame = grey();
         frame.keep = true;
@@ -93,6 +96,7 @@ public final class ModelTest {
     }
 
     private static void contextsAreApart() {
+        DUE.says("four CONTEXTS each hold all MODELS");
         VideoDecoder x = new VideoDecoder();
         FrameWriter frame = FrameWriter.key(8, 8);
         frame.keep = true;

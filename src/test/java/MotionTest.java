@@ -23,6 +23,7 @@ public final class MotionTest {
         meanOfTwo();
         threeReferences();
         ownPictureIsNotTheReference();
+        largestPicture();
         DUE.close("MotionTest");
     }
 
@@ -296,6 +297,37 @@ public final class MotionTest {
                 due("slot " + slot, from, 3, 4, 0);
             }
         }
+    }
+
+    private static void largestPicture() {
+        DUE.says("of all its samples: up to the last of the largest picture, and no others");
+        x = new VideoDecoder();
+        Painter painter = new Painter(192, 192, null, 8);
+        painter.frame.base = 255;
+        for (int i = 0; i < 9; i++) {
+            painter.bits("0").still(i % 3 * 64, i / 3 * 64, 64, 64, 0, 9, 9, false);
+        }
+        painter.check(DUE, "reference", x);
+        int[][][] from = samplesOf(0);
+        FrameWriter frame = FrameWriter.inter();
+        frame.refreshed = 0;
+        frame.fine = true;
+        frame.resilient = true;
+        frame.bits("0 1 1 0 111" + Scene.difference(5, -9, true));
+        for (int i = 1; i < 9; i++) {
+            frame.bits("0 1 1 0 10");
+        }
+        Calls.decode(x, frame);
+        due("largest", from, 5, -9, 0);
+        FrameWriter zero = FrameWriter.inter();
+        zero.resilient = true;
+        zero.sides[2] = 1;
+        zero.doubling = 1;
+        for (int i = 0; i < 9; i++) {
+            zero.bits("0 1 1 0 0");
+        }
+        Calls.decode(x, zero);
+        due("both the same", from, 0, 0, 0);
     }
 
     private static void ownPictureIsNotTheReference() {

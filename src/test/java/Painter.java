@@ -105,15 +105,16 @@ final class Painter {
         return this;
     }
 
-    /** A block with SKIP and OTHER that has the samples of REFERENCE 0. */
-    Painter other(int x, int y, int wide, int high) {
-        frame.bits("1 1 0 0");
+    /** A block with SKIP and OTHER that has the samples of REFERENCE 0, so many samples of plane 1 away. */
+    Painter other(int x, int y, int wide, int high, int byX, int byY) {
+        boolean zero = byX == 0 && byY == 0;
+        frame.bits("1 1 0" + (zero ? "0" : "111" + Scene.difference(16 * byX, 16 * byY, false)));
         for (int plane = 0; plane < 3; plane++) {
             int half = plane == 0 ? 1 : 2;
             for (int v = y / half; v < (y + high) / half; v++) {
                 for (int h = x / half; h < (x + wide) / half; h++) {
-                    int fromX = Math.min(h, planeWide(plane) - 1);
-                    int fromY = Math.min(v, planeHigh(plane) - 1);
+                    int fromX = Math.max(0, Math.min(h + byX * 2 / half, planeWide(plane) - 1));
+                    int fromY = Math.max(0, Math.min(v + byY * 2 / half, planeHigh(plane) - 1));
                     put(plane, h, v, reference.sample(0, plane, fromX, fromY));
                 }
             }

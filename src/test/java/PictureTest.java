@@ -16,6 +16,7 @@ public final class PictureTest {
     }
 
     private static void edgesOfPictures() {
+        DUE.says("no such SLOT, or nothing is there; no such plane or sample");
         VideoDecoder x = new VideoDecoder();
         Calls.decode(x, FrameWriter.key(7, 5).bits("100"));
         for (int slot = -1; slot < 8; slot++) {
@@ -62,6 +63,7 @@ public final class PictureTest {
 
     /** One number in the first square of four; the others take their mean from its edges. */
     private static void numbersOfFour() {
+        DUE.says("rows k 0 .. 3 are 29 55 74 84, 74 74 0 -74, 84 -29 -74 55, 55 -84 74 -29");
         VideoDecoder x = new VideoDecoder();
         Calls.decode(x, FrameWriter.key(8, 8).bits("0 0 0  1100 0  0 0 0  0 0"));
         plane("4 x 4", x, 0, new int[][] {
@@ -78,6 +80,7 @@ public final class PictureTest {
     }
 
     private static void modesWithoutNeighbours() {
+        DUE.says("A(0) not KNOWN: all A are 127; L(0) not KNOWN: all L are 129");
         for (int mode = 0; mode < 10; mode++) {
             int[][] rows = new int[8][8];
             for (int y = 0; y < 8; y++) {
@@ -121,6 +124,7 @@ public final class PictureTest {
     }
 
     private static void numbersOfEight() {
+        DUE.says("c(y) = R(.., 7); r(x) = R(.., 12)");
         VideoDecoder x = new VideoDecoder();
         FrameWriter frame = FrameWriter.key(8, 8);
         frame.transformMode = 1;
@@ -132,6 +136,7 @@ public final class PictureTest {
     }
 
     private static void lossless() {
+        DUE.says("LOSSLESS (N 4): a row of four, a b c d");
         VideoDecoder x = new VideoDecoder();
         FrameWriter frame = FrameWriter.key(4, 4);
         frame.base = 0;
@@ -162,6 +167,7 @@ public final class PictureTest {
 
     /** A first number of one in an 8 x 8 square tells the quantiser, by what it adds. */
     private static void quantisers() {
+        DUE.says("First number (x and y 0): 4 + i + i * i / 128");
         int[] bases = {1, 60, 128, 200, 255};
         int[] deltas = {0, -15, 15};
         for (int base : bases) {
@@ -181,6 +187,7 @@ public final class PictureTest {
     }
 
     private static void largest() {
+        DUE.says("1 .. 192 samples wide (W) and high (H)");
         VideoDecoder x = new VideoDecoder();
         FrameWriter frame = FrameWriter.key(192, 192);
         for (int i = 0; i < 9; i++) {

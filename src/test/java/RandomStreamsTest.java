@@ -21,6 +21,7 @@ public final class RandomStreamsTest {
 
     public static void main(String[] args) {
         Due due = new Due();
+        due.says("Moving pictures are decoded to the bit");
         for (int seed = 0; seed < STATES.length; seed++) {
             due.be("states of seed " + seed, Calls.crc(states(seed).getBytes()), STATES[seed]);
         }
@@ -41,6 +42,7 @@ public final class RandomStreamsTest {
 
     /** Whatever is fed, decode answers or throws what it may throw, and the tape is empty. */
     private static void noise(Due due) {
+        due.says("UnsupportedOperationException: a fault; and nothing else ever");
         Random random = new Random(1);
         VideoDecoder x = new VideoDecoder();
         for (int i = 0; i < 3000; i++) {

@@ -18,6 +18,7 @@ public final class ResidueTest {
         numbersOutsideOfThePicture();
         numbersOfLargeSquares();
         skipNeighboursHaveNone();
+        neighboursInLargePictures();
         tails();
         productsAreHeld();
         columnsAreHeld();
@@ -362,6 +363,31 @@ public final class ResidueTest {
             Numbers.none(next, 1, 0, false, 0);
             emptyChroma(next, 1);
             Calls.decodeLearning(DUE, x, next);
+        }
+    }
+
+    private static void neighboursInLargePictures() {
+        DUE.says("squares of 4 samples above and left, of this plane: in the largest picture, too");
+        for (int with = 0; with < 9; with++) {
+            // One of nine blocks of 64 x 64 has NUMBERS; of the others none has, but for SKIP they could.
+            FrameWriter frame = FrameWriter.key(192, 192);
+            frame.transformMode = 3;
+            for (int i = 0; i < 9; i++) {
+                frame.m(0, "0").m(60, "0").ladder(75, 0, 9).ladder(1011, 0, 9);
+                int above = i == with + 3 ? 1 : 0;
+                int left = i == with + 1 && i % 3 > 0 ? 1 : 0;
+                for (int at = 0; at < 6; at++) {
+                    int plane = at < 4 ? 0 : at - 3;
+                    int inside = at == 0 || at > 3 ? 0 : at == 3 ? 2 : 1;
+                    int outside = at > 3 || at == 0 ? above + left : at == 1 ? above : at == 2 ? left : 0;
+                    if (i == with) {
+                        Numbers.write(frame, 3, plane, false, 0, inside, 1);
+                    } else {
+                        Numbers.none(frame, 3, plane, false, outside);
+                    }
+                }
+            }
+            DUE.be("count 5", decoded(frame).count(5), 6);
         }
     }
 

@@ -211,12 +211,33 @@ public final class StillTest {
         DUE.says("PREDICTION, OTHER, of all its samples: they are KNOWN beyond the picture, too");
         for (int size = 0; size < 4; size++) {
             for (int mode : new int[] {0, 1, 3, 8, 9}) {
-                VideoDecoder x = coloured(40, 128);
-                Painter painter = new Painter(40, 128, x, 3).bits("0").other(0, 0, 64, 64);
-                painter.bits("0").still(0, 64, 64, 64, size, mode, mode, true).check(DUE, "below, mode " + mode, x);
-                x = coloured(128, 40);
-                painter = new Painter(128, 40, x, 3).bits("0").other(0, 0, 64, 64);
-                painter.bits("0").still(64, 0, 64, 64, size, mode, mode, true).check(DUE, "right, mode " + mode, x);
+                // By one mode for all, or each block says: then the transforms of the OTHER one are large.
+                for (int transformMode : new int[] {size, 4}) {
+                    VideoDecoder x = coloured(40, 128);
+                    Painter painter = new Painter(40, 128, x, 3);
+                    painter.frame.transformMode = transformMode;
+                    painter.bits("0").other(0, 0, 64, 64, -20, 3).bits("0").still(0, 64, 64, 64, size, mode, mode, true);
+                    painter.check(DUE, "below, mode " + mode, x);
+                    x = coloured(128, 40);
+                    painter = new Painter(128, 40, x, 3);
+                    painter.frame.transformMode = transformMode;
+                    painter.bits("0").other(0, 0, 64, 64, 5, -20).bits("0").still(64, 0, 64, 64, size, mode, mode, true);
+                    painter.check(DUE, "right, mode " + mode, x);
+                }
+            }
+        }
+        otherSquaresBesideLargerOnes();
+    }
+
+    /** Transforms of 8 in chroma beside an OTHER block whose squares end before the rows that they look at. */
+    private static void otherSquaresBesideLargerOnes() {
+        for (int mode : new int[] {0, 2, 7, 9}) {
+            for (int transformMode = 0; transformMode < 4; transformMode++) {
+                VideoDecoder x = coloured(128, 36);
+                Painter painter = new Painter(128, 36, x, 3);
+                painter.frame.transformMode = transformMode;
+                painter.bits("0").other(0, 0, 64, 64, 0, -13).bits("0");
+                painter.still(64, 0, 64, 64, transformMode, mode, mode, true).check(DUE, "beside, mode " + mode, x);
             }
         }
     }
