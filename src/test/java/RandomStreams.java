@@ -17,20 +17,6 @@ final class RandomStreams {
         random = new Random(seed);
     }
 
-    /** With an argument: prints so many streams as hexadecimal digits, for another decoder. */
-    public static void main(String[] args) {
-        for (int seed = 0; seed < Integer.parseInt(args[0]); seed++) {
-            System.out.println("new");
-            for (byte[] chunk : new RandomStreams(seed).chunks()) {
-                StringBuilder out = new StringBuilder("d ");
-                for (byte b : chunk) {
-                    out.append(String.format("%02x", b & 255));
-                }
-                System.out.println(out);
-            }
-        }
-    }
-
     List<byte[]> chunks() {
         List<byte[]> out = new ArrayList<>();
         int n = 3 + random.nextInt(7);
