@@ -4,7 +4,7 @@ import java.util.List;
 
 /**
  * A second decoder, which takes the document at its word, sample by sample, with no thought of speed or
- * room. It shares no line with the program, so a slip must be made twice to be missed; but what the words
+ * room. It shares no code with the program, so a slip must be made twice to be missed; but what the words
  * leave open it reads as the program does.
  */
 final class PlainDecoder {
